@@ -427,21 +427,24 @@ public final class TapeRings {
         return rest < 0 ? rest + length : rest;
     }
 
-    /** Of two numbers not below 0, the greatest that divides both: that of n and 0 is n. */
-    private static int greatestDivisor(int a, int b) {
-        int greater = a;
-        int less = b;
-        while (less > 0) {
-            int rest = by(greater, less);
-            greater = less;
-            less = rest;
+    /** The greatest number that divides a length and another number: the length itself, if that is 0. */
+    private static int greatestDivisor(int length, long other) {
+        for (int d = length; d > 1; d--) {
+            if (by(length, d) == 0 && by(other, d) == 0) {
+                return d;
+            }
         }
-        return greater;
+        return 1;
     }
 
-    private static long leastMultiple(long a, int b) {
-        int shared = greatestDivisor(b, by(a, b));
-        return shared < 1 ? a : a / shared * b;
+    /** A length divided by all that it shares with another number. */
+    private static int withoutShared(int length, long other) {
+        int shared = greatestDivisor(length, other);
+        return shared < 1 ? length : length / shared;
+    }
+
+    private static long leastMultiple(long a, int length) {
+        return a * withoutShared(length, a);
     }
 
     /** A row of INCHES; without any it is none. */
@@ -483,10 +486,10 @@ public final class TapeRings {
         }
 
         void turn() {
-            for (int i = 0, j = length - 1; i < j; i++, j--) {
+            for (int i = 0; i < length / 2; i++) {
                 int inch = inches[i];
-                inches[i] = inches[j];
-                inches[j] = inch;
+                inches[i] = inches[length - 1 - i];
+                inches[length - 1 - i] = inch;
             }
         }
 
@@ -809,8 +812,7 @@ public final class TapeRings {
         }
 
         int round(int length) {
-            int shared = greatestDivisor(length, Math.abs(lastSpeed()));
-            return shared < 1 ? 1 : length / shared;
+            return withoutShared(length, lastSpeed());
         }
     }
 
@@ -847,7 +849,7 @@ public final class TapeRings {
         private int soundsUnder(int at, int length) {
             int sounds = 0;
             for (int offset = 0; offset < MOST_INCHES; offset++) {
-                if ((heads >> offset & 1) != 0) {
+                if (((heads >> offset) & 1) != 0) {
                     sounds |= strip.inches[by(at + offset, length)];
                 }
             }
@@ -871,7 +873,7 @@ public final class TapeRings {
         }
 
         int putHead(int offset, boolean is) {
-            int become = is ? heads | 1 << offset : heads & ~(1 << offset);
+            int become = is ? heads | (1 << offset) : heads & ~(1 << offset);
             if (become == 0) {
                 return NONE;
             }
@@ -1031,11 +1033,12 @@ public final class TapeRings {
         private int turnsAlike(int ring, int tick, int step) {
             int found = 0;
             for (int t = by(tick, step); t < rounds[ring]; t += Math.max(1, step)) {
-                found += turns[ring] >> t & 1;
+                found += (turns[ring] >> t) & 1;
             }
             return found;
         }
 
+        /** The first TICK from one on at which it MEETS; look has been called. */
         long first(Studio studio, long from) {
             for (long t = from; t < steady; t++) {
                 if (studio.meetsAt(t)) {
@@ -1047,9 +1050,9 @@ public final class TapeRings {
 
         /** Goes on from each TICK to the first at which the RINGS, one by one, could have their WISH. */
         private long firstSteady(long from) {
-            long end = from + allTicks();
+            long all = allTicks();
             long tick = from;
-            while (tick < end) {
+            for (long tries = 0; tries < all && tick < from + all; tries++) {
                 long next = tick;
                 for (int i = 0; i < count; i++) {
                     next += ticksToTurn(i, by(next - steady, rounds[i]));
@@ -1065,7 +1068,7 @@ public final class TapeRings {
         private int ticksToTurn(int ring, int turn) {
             int round = rounds[ring];
             for (int w = 0; w < round; w++) {
-                if ((turns[ring] >> by(turn + w, round) & 1) != 0) {
+                if (((turns[ring] >> by(turn + w, round)) & 1) != 0) {
                     return w;
                 }
             }
@@ -1101,7 +1104,7 @@ public final class TapeRings {
         int marksTrue(Studio studio) {
             int bits = 0;
             for (int m = 0; m < count; m++) {
-                bits |= (studio.heardInAll(ticks[m]) >> sounds[m] & 1) << m;
+                bits |= ((studio.heardInAll(ticks[m]) >> sounds[m]) & 1) << m;
             }
             return bits;
         }
@@ -1147,7 +1150,7 @@ public final class TapeRings {
         private int trueFrom(int start, int length) {
             int bits = 0;
             for (int m = 0; m < count; m++) {
-                bits |= (under[by(start + ways[m], length)] >> sounds[m] & 1) << m;
+                bits |= ((under[by(start + ways[m], length)] >> sounds[m]) & 1) << m;
             }
             return bits;
         }
@@ -1248,7 +1251,7 @@ public final class TapeRings {
         private int loudness(int bits) {
             int sum = 0;
             for (int sound = 1; sound <= LAST_SOUND; sound++) {
-                sum += (bits >> sound & 1) * weights[sound];
+                sum += ((bits >> sound) & 1) * weights[sound];
             }
             return sum;
         }
@@ -1436,7 +1439,7 @@ public final class TapeRings {
         }
 
         private static int digit(int v, int i) {
-            return v >>> 28 - 4 * i & 15;
+            return (v >>> (28 - 4 * i)) & 15;
         }
 
         /** How many SOUNDS the SHORTEST has, which stands in best then. */
@@ -1456,8 +1459,8 @@ public final class TapeRings {
                 return;
             }
             for (int piece = 0; piece < p.count; piece++) {
-                if ((used >> piece & 1) == 0) {
-                    int withIt = used | 1 << piece;
+                if (((used >> piece) & 1) == 0) {
+                    int withIt = used | (1 << piece);
                     layRest(p, depth + 1, withIt, p.layPiece(piece, false, length));
                     layRest(p, depth + 1, withIt, p.layPiece(piece, true, length));
                 }
@@ -1491,7 +1494,7 @@ public final class TapeRings {
         }
 
         private void keepBetter(int length) {
-            if (length < bestLength || length == bestLength && laidIsLess(length)) {
+            if (length < bestLength || (length == bestLength && laidIsLess(length))) {
                 bestLength = length;
                 System.arraycopy(laid, 0, best, 0, length);
             }
@@ -1521,7 +1524,7 @@ public final class TapeRings {
         }
 
         int add(Strip strip, int ring, int day) {
-            if (count >= MOST_VERSIONS || count > 0 && day < days[count - 1]) {
+            if (count >= MOST_VERSIONS || (count > 0 && day < days[count - 1])) {
                 return NONE;
             }
             strips[count].copy(strip);

@@ -10,6 +10,7 @@ public final class EchoesTest {
         dying();
         goingRound();
         notSeen();
+        lastTicksSeen();
         check.end();
     }
 
@@ -139,5 +140,34 @@ public final class EchoesTest {
         x.heads(20, 99, 20, 0);
         check.due(30, "dies() of slow ones", x.dies(), -3);
         check.dueText(30, "the row stays", Check.row(x), "1 2");
+    }
+
+    private static TapeRings sounding(int weight, int stop, int d, int a, int e, int b) {
+        TapeRings x = new TapeRings();
+        Check.ring(x, "1", 0, 0);
+        x.weight(1, weight);
+        x.stop(stop);
+        x.heads(d, a, e, b);
+        return x;
+    }
+
+    /** What can be seen at the TICKS up to 4000 just so, and just not. */
+    private static void lastTicksSeen() {
+        TapeRings x = sounding(200, 1, 20, 99, 1, 0);
+        Check.splice(x, "[12]");
+        x.over(0, 0, 0);
+        x.weight(2, 167);
+        check.due(30, "the last that is heard", x.out(3980), 1);
+        check.due(30, "20 silent ticks up to 4000", x.dies(), 3981);
+        x.stop(2);
+        check.due(30, "20 silent ticks up to 4001", x.dies(), -3);
+        x = sounding(84, 16, 15, 61, 20, 41);
+        check.due(30, "the same 20 up to 4000", x.dies(), -2);
+        check.dueText(30, "row of the same 20 up to 4000", Check.row(x), "3966 15");
+        x = sounding(155, 1, 19, 100, 8, 5);
+        check.due(30, "the same up to 4000", x.dies(), -2);
+        check.dueText(30, "row of the same up to 4000", Check.row(x), "3980 1");
+        check.due(30, "the same up to 4001", sounding(147, 15, 19, 100, 6, 2).dies(), -3);
+        check.due(30, "the same up to 4001 again", sounding(116, 105, 18, 91, 19, 10).dies(), -3);
     }
 }

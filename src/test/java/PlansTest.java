@@ -7,6 +7,7 @@ public final class PlansTest {
         marksTrue();
         plans();
         equalPlans();
+        longRings();
         made();
         cuts();
         check.end();
@@ -98,6 +99,21 @@ public final class PlansTest {
         x.mark(0, 1);
         check.due(23, "one cut", x.plan(), 5);
         check.dueText(23, "the cut", Check.row(x), "1 0");
+    }
+
+    private static void longRings() {
+        TapeRings x = new TapeRings();
+        for (int i = 0; i < 4; i++) {
+            Check.ring(x, i == 3 ? "2" + "0".repeat(23) : "1" + "0".repeat(23), i & 1, 23);
+        }
+        for (int tick = 0; tick < 6; tick++) {
+            x.mark(tick, 2);
+        }
+        check.due(23, "one inch of 24 is left", x.plan(), 5 * 23 + 23);
+        check.dueText(23, "row of one inch left", Check.row(x), "0 23 0 23 0 23 23 0");
+        check.due(24, "one inch left", x.make(), 5 * 23 + 23);
+        check.due(24, "its length", x.of(3, 0), 1);
+        check.due(24, "the length of another", x.of(2, 0), 24);
     }
 
     private static void made() {
