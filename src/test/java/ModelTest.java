@@ -1,3 +1,9 @@
+import java.lang.reflect.InvocationTargetException;
+import java.lang.reflect.Method;
+import java.lang.reflect.Modifier;
+import java.util.Arrays;
+import java.util.Comparator;
+import java.util.List;
 import java.util.NoSuchElementException;
 import java.util.Random;
 
@@ -5,6 +11,12 @@ import java.util.Random;
 public final class ModelTest {
     private static final long THROWN = Long.MIN_VALUE + 7;
     private static final String[] ATOMS = {"0", "1", "2", "3", "[12]", "[13]", "9", "5", "[1234]"};
+    private static final long[] NUMBERS = {Long.MIN_VALUE, Integer.MIN_VALUE, Integer.MIN_VALUE + 1L, -1000000001L, -1023, -2, -1, 0, 1, 2, 3, 4, 5, 6,
+        8, 9, 10, 11, 12, 16, 19, 20, 21, 22, 23, 24, 25, 50, 60, 61, 99, 100, 101, 200, 201, 999, 1000, 1022, 1023, 1024, 2000, 2001, 4000, 4001,
+        5000, 5001, 100000, 100001, 1000000000, 1000000001, 0x11223344, 0x31313131, 0x31323334, Integer.MAX_VALUE - 1L, Integer.MAX_VALUE,
+        1L << 60, (1L << 60) + 1, Long.MAX_VALUE};
+    private static final List<Method> METHODS = Arrays.stream(TapeRings.class.getDeclaredMethods())
+            .filter(method -> Modifier.isPublic(method.getModifiers())).sorted(Comparator.comparing(Method::toString)).toList();
     private static final String SIGNS = "0123456789[]()*~/ a";
 
     private final Random random;
@@ -87,7 +99,9 @@ public final class ModelTest {
 
     private void step(int kind) {
         int r = random.nextInt(20);
-        if (r < 7) {
+        if (kind == 7 && r >= 4) {
+            anyCall();
+        } else if (r < 7) {
             build(kind);
         } else if (kind == 0 || r == 7) {
             splices();
@@ -105,6 +119,37 @@ public final class ModelTest {
             versions();
         } else {
             looks();
+        }
+    }
+
+    /** Any call with any numbers, most of which stand at the edge of something. */
+    private void anyCall() {
+        Method real = METHODS.get(random.nextInt(METHODS.size()));
+        Class<?>[] types = real.getParameterTypes();
+        Object[] values = new Object[types.length];
+        for (int i = 0; i < types.length; i++) {
+            long n = random.nextInt(3) == 0 ? random.nextInt(4) : NUMBERS[random.nextInt(NUMBERS.length)];
+            values[i] = types[i] == boolean.class ? (Object) (n % 2 == 0) : types[i] == long.class ? (Object) n : (Object) (int) n;
+        }
+        try {
+            Method model = Model.class.getDeclaredMethod(real.getName(), types);
+            ask(real.getName() + Arrays.toString(values), () -> invoked(real, x, values), () -> invoked(model, m, values));
+        } catch (NoSuchMethodException e) {
+            throw new IllegalStateException(e);
+        }
+    }
+
+    private static long invoked(Method method, Object object, Object[] values) {
+        try {
+            Object answer = method.invoke(object, values);
+            return answer instanceof Boolean b ? is(b) : ((Number) answer).longValue();
+        } catch (InvocationTargetException e) {
+            if (e.getCause() instanceof NoSuchElementException none) {
+                throw none;
+            }
+            throw new IllegalStateException(e.getCause());
+        } catch (IllegalAccessException e) {
+            throw new IllegalStateException(e);
         }
     }
 
