@@ -495,15 +495,12 @@ public final class TapeRings {
 
         /** Puts another one behind, laid over the last INCHES here; the caller has asked that both are long enough. */
         void putBehind(Strip other, int shared) {
-            int from = length - shared;
-            for (int i = 0; i < other.length; i++) {
-                if (has(from + i)) {
-                    inches[from + i] |= other.inches[i];
-                } else if (length < inches.length) {
-                    inches[length] = other.inches[i];
-                    length++;
-                }
+            int at = Math.max(0, length - shared);
+            for (int i = 0; i < other.length && at < inches.length; i++) {
+                inches[at] = other.inches[i] | (at < length ? inches[at] : 0);
+                at++;
             }
+            length = Math.max(length, at);
         }
     }
 
