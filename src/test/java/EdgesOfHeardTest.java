@@ -229,6 +229,22 @@ public final class EdgesOfHeardTest {
         Edges.due("from 11 on, the same", x.meets(11), -1);
     }
 
+    static void promise19_roundsAreCountedFromSteadyOn() {
+        for (int steady = 0; steady < 12; steady++) {
+            TapeRings x = ringOf("100", 0);
+            Check.ring(x, "0200", 1, 0);
+            x.motor(0, steady, 1);
+            x.motor(1, steady / 2, 1);
+            x.wish(0, 2);
+            Edges.due("meets(1) of one, steady at " + steady, x.meets(1), 3);
+            Edges.due("meets(13) of one, steady at " + steady, x.meets(13), 15);
+            x.wish(1, 4);
+            Edges.due("meets(0) of both, steady at " + steady, x.meets(0), 9);
+            Edges.due("meets(10) of both, steady at " + steady, x.meets(10), 21);
+            Edges.due("often() of both, steady at " + steady, x.often(), 1);
+        }
+    }
+
     static void promise19_theLastTickAheadOfTheLatestSteady() {
         TapeRings x = ringOf("1" + "0".repeat(23), 0);
         x.motor(0, 0, 0);

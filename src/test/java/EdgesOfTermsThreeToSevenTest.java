@@ -166,6 +166,19 @@ public final class EdgesOfTermsThreeToSevenTest {
         plans("of a cut of the second", x, 7, "0 2 1 0");
     }
 
+    static void term3_aPlanIsOfTheTicksOfAllMarks() {
+        TapeRings x = ringOf("12300000", 0);
+        x.mark(99999, 2);
+        plans("of the last tick but one", x, 2, "0 2");
+        x.mark(100000, 3);
+        plans("of the last two ticks", x, 2, "0 2");
+        x.mark(7, 2);
+        x.mark(0, 3);
+        plans("of two ticks alike", x, 2, "0 2");
+        x.mark(1, 3);
+        Edges.due("plan() of one tick more", x.plan(), -1);
+    }
+
     static void term3_withoutMarksNothingIsDone() {
         TapeRings x = new TapeRings();
         plans("without rings", x, 0, "");

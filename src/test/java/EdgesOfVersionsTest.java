@@ -51,6 +51,13 @@ public final class EdgesOfVersionsTest {
         }, (x, v) -> x.keep(1, v));
     }
 
+    static void promise41_theFirstVersionsDayBindsTheSecond() {
+        Edges.range("keep's day behind 500 alone", 500, 999, x -> {
+            oneRing(x);
+            x.keep(0, 500);
+        }, (x, v) -> x.keep(0, v));
+    }
+
     static void promise41_refusedIfThereAre16() {
         for (int day : new int[] {30, 31, 999}) {
             Edges.refused("a 17th at " + day, x -> {
