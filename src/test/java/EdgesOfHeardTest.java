@@ -245,6 +245,37 @@ public final class EdgesOfHeardTest {
         }
     }
 
+    static void promise19_fourRingsAheadOfSteady() {
+        TapeRings x = new TapeRings();
+        for (int ring = 0; ring < 4; ring++) {
+            Check.ring(x, "1" + "0".repeat(ring + 1), ring & 1, 0);
+            x.wish(ring, 2);
+        }
+        x.motor(0, 4000, 1);
+        Edges.due("meets(0)", x.meets(0), 0);
+        Edges.due("meets(1) of 2, 3, 4, 5", x.meets(1), 60);
+        Edges.due("meets(3901) around steady", x.meets(3901), 3960);
+        Edges.due("meets(3961) around steady", x.meets(3961), 4020);
+    }
+
+    static void promise19_ringsThatAreClearedHaveNoWish() {
+        TapeRings x = new TapeRings();
+        Check.splice(x, "12");
+        x.ring(0, 0);
+        x.ring(0, 0);
+        x.wish(0, 512);
+        x.wish(1, 512);
+        Edges.due("meets(0) ahead of clear()", x.meets(0), -1);
+        x.clear();
+        x.motor(0, 50, 0);
+        Edges.due("meets(0) without rings", x.meets(0), 0);
+        Edges.due("often() without rings", x.often(), 1);
+        x.ring(0, 0);
+        x.wish(0, 4);
+        Edges.due("meets(0) of a new one", x.meets(0), 1);
+        Edges.due("meets(49) of a new one", x.meets(49), 49);
+    }
+
     static void promise19_theLastTickAheadOfTheLatestSteady() {
         TapeRings x = ringOf("1" + "0".repeat(23), 0);
         x.motor(0, 0, 0);

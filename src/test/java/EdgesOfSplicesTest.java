@@ -220,6 +220,23 @@ public final class EdgesOfSplicesTest {
         Edges.due("sign behind that", x.sign(0), 4);
     }
 
+    static void promise4_aTextBehindOneThatIsNoneIsReadAnew() {
+        String[] none = {"", "(", "(((((", "((((((", "1)", "1/1", "1*", "[1", "1*5*5", "(((1*5*5)))", "1*8*311",
+            "1*8*31/12", "1/22", "((12/3(345)))", "1(2(3/2(45)", "123/3(45)", "[12]*9*9", "x"};
+        String[] read = {"9", "12", "(((((1)))))", "1*8*3", "12/2(34)", "[45]6", "(12)~"};
+        String[] strips = {"512", "2 4", "2", "2" + " 2".repeat(23), "10 20", "48 64", "4 2"};
+        for (String n : none) {
+            for (int i = 0; i < read.length; i++) {
+                TapeRings x = new TapeRings();
+                Edges.due("splice() of '" + n + "' is below 0", Check.splice(x, n) < 0, true);
+                Check.splice(x, read[i]);
+                Edges.dueText("the strip of " + read[i] + " behind '" + n + "'", Check.inHand(x), strips[i]);
+                Check.splice(x, n);
+                Edges.due("six in one another behind '" + n + "'", Check.splice(x, "((((((1))))))"), -6);
+            }
+        }
+    }
+
     static void promise4_ringsAndVersionsKeepTheirStrips() {
         TapeRings x = Edges.madeBy(Edges.FULL);
         Check.splice(x, "0*8*3");
