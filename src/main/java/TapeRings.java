@@ -430,7 +430,7 @@ public final class TapeRings {
     /** The greatest number that divides a length and another number: the length itself, if that is 0. */
     private static int greatestDivisor(int length, long other) {
         for (int d = length; d > 1; d--) {
-            if (by(length, d) == 0 && by(other, d) == 0) {
+            if (length % d == 0 && other % d == 0) {
                 return d;
             }
         }
@@ -642,7 +642,7 @@ public final class TapeRings {
             openRow();
             int fault = FINE;
             for (int i = 0; i < count && fault == FINE; i++) {
-                fault = readSign(signs[i]);
+                fault = isDigit(signs[i], '0') ? readDigit(signs[i] - '0') : readSign(signs[i]);
             }
             return fault == FINE ? layTerm() : fault;
         }
@@ -669,7 +669,7 @@ public final class TapeRings {
                 case ')':
                     return close();
                 default:
-                    return readDigit(sign - '0');
+                    return FINE;
             }
         }
 

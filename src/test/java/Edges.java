@@ -85,7 +85,7 @@ final class Edges {
         for (Method m : found) {
             runOne(m);
         }
-        System.out.println(tests.getName() + ": " + found.size() + " edges, " + asked + " asked, " + wrong + " wrong");
+        System.out.println(tests.getName() + ": " + found.size() + " tests, " + asked + " asked, " + wrong + " wrong");
         if (wrong != 0 || found.isEmpty()) {
             System.exit(1);
         }

@@ -18,6 +18,7 @@ public final class EdgesOfEchoesTest {
 
     // ---- promise 26
 
+    @Says("WEIGHT of a SOUND becomes v: what it was.")
     static void promise26_becomesVWhatItWas() {
         TapeRings x = new TapeRings();
         for (int sound = 1; sound <= 9; sound++) {
@@ -30,6 +31,7 @@ public final class EdgesOfEchoesTest {
         }
     }
 
+    @Says("Refused: others.")
     static void promise26_othersAreRefused() {
         Edges.range("sound", 1, 9, Edges.FULL, (x, v) -> x.weight(v, 7));
         Edges.range("weight", 0, 200, Edges.FULL, (x, v) -> x.weight(9, v));
@@ -44,6 +46,7 @@ public final class EdgesOfEchoesTest {
 
     // ---- promise 27
 
+    @Says("Refused: others.")
     static void promise27_othersAreRefused() {
         Edges.range("d", 1, 20, Edges.FULL, (x, v) -> Edges.of(x.heads(v, 1, 1, 1)), 0);
         Edges.range("a", 0, 100, Edges.FULL, (x, v) -> Edges.of(x.heads(1, v, 1, 1)), 0);
@@ -51,6 +54,7 @@ public final class EdgesOfEchoesTest {
         Edges.range("b", 0, 100, Edges.FULL, (x, v) -> Edges.of(x.heads(1, 1, 1, v)), 0);
     }
 
+    @Says("DELAYS and GAINS: true.")
     static void promise27_allFourBecomeThoseTold() {
         TapeRings x = sounding("1", 200, 1);
         Edges.due("heads", x.heads(2, 50, 3, 10), true);
@@ -64,6 +68,7 @@ public final class EdgesOfEchoesTest {
         }
     }
 
+    @Says("DELAYS and GAINS:")
     static void promise27_theUtmostDelays() {
         TapeRings x = sounding("1", 200, 1);
         x.heads(20, 100, 1, 0);
@@ -78,6 +83,7 @@ public final class EdgesOfEchoesTest {
 
     // ---- promise 28
 
+    @Says("STOP becomes v: what it was.")
     static void promise28_becomesVWhatItWas() {
         TapeRings x = new TapeRings();
         Edges.due("at first", x.stop(2000), 0);
@@ -87,6 +93,7 @@ public final class EdgesOfEchoesTest {
         Edges.due("then", x.stop(1), 1);
     }
 
+    @Says("Refused: others.")
     static void promise28_othersAreRefused() {
         Edges.range("stop", 0, 2000, Edges.FULL, TapeRings::stop);
         Edges.range("stop of a new one", 0, 2000, Edges.NEW, TapeRings::stop);
@@ -100,6 +107,7 @@ public final class EdgesOfEchoesTest {
 
     // ---- promise 29
 
+    @Says({"OUT at a TICK (0 .. 4000).", "NONE: others."})
     static void promise29_ticksAre0To4000() {
         Edges.range("out's tick", 0, 4000, Edges.FULL, TapeRings::out);
         Edges.range("out's tick of a new one", 0, 4000, Edges.NEW, TapeRings::out);
@@ -118,6 +126,7 @@ public final class EdgesOfEchoesTest {
         Edges.due("out(4000)", x.out(4000), 0);
     }
 
+    @Says("OUT at a TICK")
     static void promise29_inAnyOrderOfTicks() {
         TapeRings x = sounding("10", 64, 2);
         x.heads(1, 50, 1, 0);
@@ -141,6 +150,7 @@ public final class EdgesOfEchoesTest {
         Edges.dueText("the row " + told, Check.row(x), first + " " + ticks);
     }
 
+    @Says("The TICK at which the ECHO DIES.")
     static void promise30_theTickAtWhichItDies() {
         TapeRings x = sounding("1", 8, 1);
         x.heads(1, 50, 1, 0);
@@ -152,6 +162,7 @@ public final class EdgesOfEchoesTest {
         Edges.still("of what is told of a row", Edges.FULL, y -> y.dies(), Edges.madeBy(Edges.FULL).dies());
     }
 
+    @Says({"The TICK at which the ECHO DIES.", "from STOP on, all 0;"})
     static void promise30_fromStopOn() {
         TapeRings x = sounding("1" + "0".repeat(23), 100, 23);
         Edges.due("silent since 1", x.dies(), 23);
@@ -163,6 +174,7 @@ public final class EdgesOfEchoesTest {
         Edges.due("of none", x.dies(), 0);
     }
 
+    @Says("(no 20 TICKS one behind another from STOP on, all 0;")
     static void promise30_twentyTicksOf0() {
         TapeRings x = sounding("1", 2, 1);
         x.heads(20, 50, 1, 0);
@@ -173,6 +185,7 @@ public final class EdgesOfEchoesTest {
         Edges.due("20 ticks of 0 from 2 on", x.dies(), 2);
     }
 
+    @Says("-3: neither can be seen from OUT at TICKS up to 4000")
     static void promise30_theLastTicksSeenOfOneThatDies() {
         TapeRings x = sounding("[12]", 200, 1);
         x.weight(2, 167);
@@ -190,6 +203,7 @@ public final class EdgesOfEchoesTest {
         }, y -> y.dies(), -3);
     }
 
+    @Says({"-2: it GOES ROUND:", "and the fewest TICKS in which it does;"})
     static void promise30_comesBackForEver() {
         TapeRings x = sounding("1", 100, 1);
         x.heads(1, 100, 1, 0);
@@ -208,6 +222,7 @@ public final class EdgesOfEchoesTest {
         goes("of the last stop", x, 2000, 1);
     }
 
+    @Says("the ROW: the first TICK from STOP on from which on OUT comes back for ever,")
     static void promise30_theFirstTickFromWhichItComesBack() {
         TapeRings x = sounding("1", 100, 1);
         x.heads(2, 100, 2, 100);
@@ -218,6 +233,7 @@ public final class EdgesOfEchoesTest {
         Edges.due("out(14)", x.out(14), 5000);
     }
 
+    @Says("nor twice the same 20).")
     static void promise30_theLastTicksSeenOfOneThatGoesRound() {
         TapeRings x = sounding("1", 84, 16);
         x.heads(15, 61, 20, 41);
@@ -233,6 +249,7 @@ public final class EdgesOfEchoesTest {
         }, y -> y.dies(), -3);
     }
 
+    @Says("-2: it GOES ROUND: the ROW:")
     static void promise30_theRowStaysUnlessItGoesRound() {
         TapeRings x = Edges.madeBy(Edges.FULL);
         Edges.dueText("the row ahead", Check.row(x), "1 2 3 4");

@@ -14,6 +14,7 @@ public final class EdgesOfHeardTest {
 
     // ---- promise 15
 
+    @Says("to a TICK (0 .. 1000000000).")
     static void promise15_ticksAre0To1000000000() {
         Edges.rangeThrown("way's tick", 0, 1000000000, Edges.FULL, (x, v) -> x.way(0, v));
         TapeRings x = new TapeRings();
@@ -23,12 +24,14 @@ public final class EdgesOfHeardTest {
         Edges.due("way(0, 1000000000)", x.way(0, 1000000000), 1000000000);
     }
 
+    @Says("NoSuchElementException: none such.")
     static void promise15_motorsAre0And1() {
         Edges.rangeThrown("way's motor", 0, 1, Edges.FULL, (x, v) -> x.way(v, 5));
         Edges.rangeThrown("way's motor at 0", 0, 1, Edges.NEW, (x, v) -> x.way(v, 0));
         Edges.noSuch("neither", Edges.NEW, x -> x.way(2, -1));
     }
 
+    @Says("WAY of a MOTOR to a TICK (0 .. 1000000000).")
     static void promise15_waysBeyondAnInt() {
         TapeRings x = new TapeRings();
         x.motor(0, 0, 9);
@@ -41,6 +44,7 @@ public final class EdgesOfHeardTest {
         Edges.due("one behind it", x.way(0, 5001), -44991);
     }
 
+    @Says("WAY of a MOTOR to a TICK")
     static void promise15_aroundEachTickTold() {
         TapeRings x = new TapeRings();
         x.motor(1, 10, 3);
@@ -59,6 +63,7 @@ public final class EdgesOfHeardTest {
 
     // ---- promise 16
 
+    @Says("at a TICK (0 or more).")
     static void promise16_ticksAre0OrMore() {
         for (long tick : new long[] {-1, -2, Integer.MIN_VALUE, Long.MIN_VALUE}) {
             for (int ring : new int[] {-1, 0, 1}) {
@@ -72,6 +77,7 @@ public final class EdgesOfHeardTest {
         Edges.due("heard(-1, 0)", x.heard(-1, 0), 2);
     }
 
+    @Says("at a TICK (0 or more).")
     static void promise16_veryLateTicks() {
         for (int speed = -9; speed <= 9; speed++) {
             TapeRings x = ringOf("123456789", 3);
@@ -83,6 +89,7 @@ public final class EdgesOfHeardTest {
         }
     }
 
+    @Says({"(NONE: in all)", "NONE: none such."})
     static void promise16_noneSuchRings() {
         Edges.range("heard's ring", -1, 1, Edges.FULL, (x, v) -> x.heard(v, 4));
         Edges.range("heard's ring without rings", -1, -1, Edges.NEW, (x, v) -> x.heard(v, 4));
@@ -92,12 +99,14 @@ public final class EdgesOfHeardTest {
         }, x -> x.heard(0, 0));
     }
 
+    @Says("(NONE: in all)")
     static void promise16_inAllWithoutRingsNothing() {
         TapeRings x = new TapeRings();
         Edges.due("heard(NONE, 0)", x.heard(TapeRings.NONE, 0), 0);
         Edges.due("heard(NONE, 2^63-1)", x.heard(-1, Long.MAX_VALUE), 0);
     }
 
+    @Says("HEARD of a RING")
     static void promise16_aroundATickTold() {
         TapeRings x = ringOf("12345", 0);
         x.motor(0, 3, -1);
@@ -125,6 +134,7 @@ public final class EdgesOfHeardTest {
         Edges.due("all() of motors alone", x.all(), 1);
     }
 
+    @Says("ALL.")
     static void promise17_theGreatestOfAll() {
         TapeRings x = new TapeRings();
         for (int length : new int[] {19, 21, 22, 23}) {
@@ -135,6 +145,7 @@ public final class EdgesOfHeardTest {
         Edges.due("all() of 19, 20, 22, 23", x.all(), 19 * 20 * 11 * 23);
     }
 
+    @Says("ALL.")
     static void promise17_ringsThatStand() {
         TapeRings x = ringOf("12345", 0);
         Check.ring(x, "123", 1, 0);
@@ -152,6 +163,7 @@ public final class EdgesOfHeardTest {
 
     // ---- promise 18
 
+    @Says("The WISH of a RING becomes SOUNDS as bits: true.")
     static void promise18_soundsAsBits() {
         int[] taken = {0, 2, 4, 256, 512, 514, 1020, 1022};
         int[] not = {1, 3, 513, 1023, 1024, 1026, 2046, 2048, -1, -2, Integer.MIN_VALUE, Integer.MAX_VALUE};
@@ -165,6 +177,7 @@ public final class EdgesOfHeardTest {
         }
     }
 
+    @Says("Refused: others.")
     static void promise18_othersAreRefused() {
         Edges.range("wish's ring", 0, 1, Edges.FULL, (x, v) -> Edges.of(x.wish(v, 8)), 0);
         Edges.refusedFalse("wish(0, 0) without rings", Edges.NEW, x -> Edges.of(x.wish(0, 0)));
@@ -173,6 +186,7 @@ public final class EdgesOfHeardTest {
 
     // ---- promise 19
 
+    @Says({"(0 .. 2 to the power of 60)", "another TICK."})
     static void promise19_from0To2ToThePowerOf60() {
         TapeRings x = ringOf("1234", 0);
         x.wish(0, 8);
@@ -189,6 +203,7 @@ public final class EdgesOfHeardTest {
         }
     }
 
+    @Says("The first TICK from one on")
     static void promise19_theFirstFromOneOn() {
         TapeRings x = ringOf("0100", 0);
         x.wish(0, 2);
@@ -198,6 +213,7 @@ public final class EdgesOfHeardTest {
         }
     }
 
+    @Says("NONE: none,")
     static void promise19_noneIfThereIsNone() {
         Edges.refused("a sound that is nowhere", x -> {
             Edges.FULL.on(x);
@@ -212,6 +228,7 @@ public final class EdgesOfHeardTest {
         Edges.due("always together", x.meets(0), 0);
     }
 
+    @Says("at which the WISH MEETS.")
     static void promise19_aroundSteady() {
         TapeRings x = ringOf("10000", 0);
         x.wish(0, 2);
@@ -229,6 +246,7 @@ public final class EdgesOfHeardTest {
         Edges.due("from 11 on, the same", x.meets(11), -1);
     }
 
+    @Says("at which the WISH MEETS.")
     static void promise19_roundsAreCountedFromSteadyOn() {
         for (int steady = 0; steady < 12; steady++) {
             TapeRings x = ringOf("100", 0);
@@ -245,6 +263,7 @@ public final class EdgesOfHeardTest {
         }
     }
 
+    @Says("at which the WISH MEETS.")
     static void promise19_fourRingsAheadOfSteady() {
         TapeRings x = new TapeRings();
         for (int ring = 0; ring < 4; ring++) {
@@ -276,6 +295,7 @@ public final class EdgesOfHeardTest {
         Edges.due("meets(49) of a new one", x.meets(49), 49);
     }
 
+    @Says("The first TICK from one on")
     static void promise19_theLastTickAheadOfTheLatestSteady() {
         TapeRings x = ringOf("1" + "0".repeat(23), 0);
         x.motor(0, 0, 0);
@@ -290,6 +310,7 @@ public final class EdgesOfHeardTest {
         Edges.due("from 4977 on at way 24", x.meets(4977), 5000);
     }
 
+    @Says("The first TICK from one on")
     static void promise19_aWholeRoundOfAllIsLookedAt() {
         TapeRings x = new TapeRings();
         int[] lengths = {19, 21, 22, 23};
@@ -318,6 +339,7 @@ public final class EdgesOfHeardTest {
 
     // ---- promise 20
 
+    @Says({"At how many of ALL TICKS,", "it MEETS."})
     static void promise20_from0ToAllTicks() {
         TapeRings x = ringOf("1002", 0);
         Edges.due("without wishes", x.often(), 4);
@@ -340,6 +362,7 @@ public final class EdgesOfHeardTest {
         Edges.due("without rings, with motors", x.often(), 1);
     }
 
+    @Says("from the greatest STEADY of both MOTORS on,")
     static void promise20_fromTheGreatestSteadyOfBothOn() {
         TapeRings x = ringOf("1000", 0);
         x.wish(0, 2);
@@ -369,6 +392,7 @@ public final class EdgesOfHeardTest {
         Edges.due("going by 2 from 6 on", x.often(), 1);
     }
 
+    @Says("At how many of ALL TICKS,")
     static void promise20_theMostThereCanBe() {
         TapeRings x = new TapeRings();
         for (int length : new int[] {19, 21, 22, 23}) {

@@ -18,6 +18,7 @@ public final class EdgesOfOldTapesTest {
 
     // ---- promise 31
 
+    @Says({"A place more of the OLD TAPE (SOUNDS as bits, or NONE): how many.", "Refused: others,"})
     static void promise31_soundsAsBitsOrNone() {
         int[] taken = {-1, 0, 2, 4, 512, 514, 1020, 1022};
         int[] not = {-2, 1, 3, 513, 1023, 1024, 1025, 1026, 2046, Integer.MIN_VALUE, Integer.MAX_VALUE};
@@ -33,6 +34,7 @@ public final class EdgesOfOldTapesTest {
         }
     }
 
+    @Says("60.")
     static void promise31_sixtyPlaces() {
         TapeRings x = new TapeRings();
         for (int n = 1; n <= 60; n++) {
@@ -47,6 +49,7 @@ public final class EdgesOfOldTapesTest {
 
     // ---- promise 32
 
+    @Says({"at n (0 .. 60) TICKS", "Refused: others."})
     static void promise32_nIs0To60() {
         Edges.range("take's n", 0, 60, Edges.FULL, (x, v) -> Edges.of(x.take(2, v)), 0);
         TapeRings x = new TapeRings();
@@ -57,6 +60,7 @@ public final class EdgesOfOldTapesTest {
         }
     }
 
+    @Says({"TICKS from one (0 .. 100000) on: true.", "Refused: others."})
     static void promise32_ticksAre0To100000() {
         Edges.range("take's tick", 0, 100000, Edges.FULL, (x, v) -> Edges.of(x.take(v, 5)), 0);
         Edges.range("take's tick of 60", 0, 100000, Edges.FULL, (x, v) -> Edges.of(x.take(v, 60)), 0);
@@ -69,6 +73,7 @@ public final class EdgesOfOldTapesTest {
         Edges.due("the last place, at 3 of 24", x.mended(59), 2);
     }
 
+    @Says("The OLD TAPE is what is HEARD in all at n")
     static void promise32_itIsInPlaceOfWhatWasThere() {
         TapeRings x = taped(2, 4, 8, -1, 2);
         Check.ring(x, "56", 1, 0);
@@ -100,6 +105,7 @@ public final class EdgesOfOldTapesTest {
 
     // ---- promise 33
 
+    @Says("false for none such.")
     static void promise33_placesFrom0ToTheLast() {
         Edges.range("gap", 0, 6, Edges.FULL, (x, v) -> Edges.of(x.gap(v)), 0);
         Edges.range("gap of one place", 0, 0, x -> tape(x, 2), (x, v) -> Edges.of(x.gap(v)), 0);
@@ -107,6 +113,7 @@ public final class EdgesOfOldTapesTest {
         Edges.refusedFalse("gap(0) of none", Edges.NEW, x -> Edges.of(x.gap(0)));
     }
 
+    @Says("A place of it becomes a GAP: true;")
     static void promise33_aPlaceBecomesAGap() {
         TapeRings x = taped(2, 4, 2);
         Edges.due("gap(0)", x.gap(0), true);
@@ -120,6 +127,7 @@ public final class EdgesOfOldTapesTest {
 
     // ---- promise 34
 
+    @Says("An empty OLD TAPE: how long it was.")
     static void promise34_howLongItWas() {
         TapeRings x = new TapeRings();
         Edges.due("of none", x.wipe(), 0);
@@ -136,6 +144,7 @@ public final class EdgesOfOldTapesTest {
 
     // ---- promise 35
 
+    @Says("The i-th SPAN that FITS, ascending.")
     static void promise35_ascendingFrom0On() {
         TapeRings x = taped(2, 4, 2, 4, 2, 4, 2);
         int[] due = {2, 4, 6, 7, 8, 9};
@@ -146,6 +155,7 @@ public final class EdgesOfOldTapesTest {
         Edges.due("one more", x.span(21), -1);
     }
 
+    @Says("NONE: none such.")
     static void promise35_noneSuch() {
         Edges.range("span of a new one", 0, 23, Edges.NEW, TapeRings::span);
         int[] none = new int[30];
@@ -180,6 +190,7 @@ public final class EdgesOfOldTapesTest {
 
     // ---- promise 36
 
+    @Says("The i-th PAIR that FITS: 100 times p, and q.")
     static void promise36_ascendingFrom0On() {
         Edges.range("pair of a new one", 0, 299, Edges.NEW, TapeRings::pair);
         TapeRings x = taped(2, 4);
@@ -191,6 +202,7 @@ public final class EdgesOfOldTapesTest {
         Edges.due("one more", x.pair(299), -1);
     }
 
+    @Says("NONE: none such.")
     static void promise36_noneSuch() {
         int[] none = new int[60];
         for (int i = 0; i < 60; i++) {
@@ -201,6 +213,7 @@ public final class EdgesOfOldTapesTest {
         }
     }
 
+    @Says("100 times p, and q.")
     static void promise36_theUtmostPair() {
         TapeRings x = new TapeRings();
         for (int i = 0; i < 60; i++) {
@@ -223,6 +236,7 @@ public final class EdgesOfOldTapesTest {
 
     // ---- promise 37
 
+    @Says("NONE: none such,")
     static void promise37_placesFrom0ToTheLast() {
         Edges.range("mended", 0, 6, Edges.FULL, TapeRings::mended);
         Edges.range("mended of one place", 0, 0, x -> tape(x, 2), TapeRings::mended);
@@ -236,6 +250,7 @@ public final class EdgesOfOldTapesTest {
         }
     }
 
+    @Says("no PAIR.")
     static void promise37_noneIfNoPairFits() {
         int[] none = new int[60];
         for (int i = 0; i < 60; i++) {
@@ -246,6 +261,7 @@ public final class EdgesOfOldTapesTest {
         }
     }
 
+    @Says("What a place of the OLD TAPE has")
     static void promise37_aPlaceThatIsNoGapIsAsItIs() {
         TapeRings x = Edges.madeBy(Edges.FULL);
         int[] due = {2, 6, -1, 6, 2, 6, 0};
@@ -256,6 +272,7 @@ public final class EdgesOfOldTapesTest {
         }
     }
 
+    @Says("the greatest STRIPS there can be, both together, as bits; of a GAP too.")
     static void promise37_aGapIsOfTheGreatestStrips() {
         TapeRings x = taped(2, -1, 2, -1, 2);
         Edges.due("pair(0)", x.pair(0), 101);
@@ -271,6 +288,7 @@ public final class EdgesOfOldTapesTest {
         Edges.due("a third that no place is of", x.mended(2), 1022);
     }
 
+    @Says("What a place of the OLD TAPE has by the first PAIR:")
     static void promise37_byTheFirstPair() {
         TapeRings x = taped(6, 4, 2, 4, -1, 4, 2);
         Edges.due("pair(0)", x.pair(0), 104);

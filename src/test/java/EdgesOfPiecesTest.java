@@ -19,6 +19,7 @@ public final class EdgesOfPiecesTest {
 
     // ---- promise 38
 
+    @Says("its number.")
     static void promise38_itsNumber() {
         TapeRings x = new TapeRings();
         for (int n = 0; n < 5; n++) {
@@ -31,11 +32,13 @@ public final class EdgesOfPiecesTest {
         Edges.due("behind burn()", x.piece(0x12345678, 1), 0);
     }
 
+    @Says("Refused: others,")
     static void promise38_nIs1To8() {
         Edges.range("piece's n", 1, 8, Edges.FULL, (x, v) -> x.piece(0x98765432, v));
         Edges.range("piece's n of a new one", 1, 8, Edges.NEW, (x, v) -> x.piece(0, v));
     }
 
+    @Says("A PIECE of n SOUNDS: the first n digits of v (of base 16, the highest of its eight first):")
     static void promise38_theFirstNDigitsTheHighestFirst() {
         for (int n = 1; n <= 8; n++) {
             TapeRings x = new TapeRings();
@@ -49,6 +52,7 @@ public final class EdgesOfPiecesTest {
         Edges.dueText("of a number below 0", Check.row(x), "8 9");
     }
 
+    @Says("a digit above 9,")
     static void promise38_aDigitAbove9IsRefused() {
         Edges.due("9 as the first", new TapeRings().piece(0x90000000, 1), 0);
         Edges.due("9 as the last", new TapeRings().piece(9, 8), 0);
@@ -66,6 +70,7 @@ public final class EdgesOfPiecesTest {
         }
     }
 
+    @Says("5.")
     static void promise38_fiveAreRefusedMore() {
         Edges.range("the fifth's n", 1, 8, EdgesOfPiecesTest::fourPieces, (x, v) -> x.piece(0x31415926, v));
         for (int n = 0; n <= 9; n++) {
@@ -84,6 +89,7 @@ public final class EdgesOfPiecesTest {
 
     // ---- promise 39
 
+    @Says("No PIECES: how many there were.")
     static void promise39_howManyThereWere() {
         TapeRings x = new TapeRings();
         Edges.due("none", x.burn(), 0);
@@ -111,6 +117,7 @@ public final class EdgesOfPiecesTest {
 
     // ---- promise 40
 
+    @Says("(0 without PIECES):")
     static void promise40_withoutPieces0AndAnEmptyRow() {
         TapeRings x = new TapeRings();
         Edges.due("join()", x.join(), 0);
@@ -122,6 +129,7 @@ public final class EdgesOfPiecesTest {
         Edges.due("numbers of the row", x.count(5), 0);
     }
 
+    @Says({"How many SOUNDS the SHORTEST has", "the ROW: they."})
     static void promise40_onePieceIsItselfOrTurned() {
         joins("0", "0");
         joins("1 2", "12");
@@ -131,6 +139,7 @@ public final class EdgesOfPiecesTest {
         joins("0 0 0 0 0 0 0 1", "10000000");
     }
 
+    @Says("How many SOUNDS the SHORTEST has")
     static void promise40_theMostFrom0ToTheShorterOne() {
         joins("1 2 3 4", "12", "34");
         joins("1 2 3", "12", "23");
@@ -142,12 +151,14 @@ public final class EdgesOfPiecesTest {
         joins("1 2 3 4 5 6 7 8 7", "12345678", "7");
     }
 
+    @Says("the SHORTEST")
     static void promise40_theFewestSoundsOfAllOrders() {
         joins("1 2 3 4 5", "45", "12", "34", "23");
         joins("1 2 3 4 5", "54", "21", "43", "32");
         joins("1 2 3 4 5 6", "56", "45", "34", "23", "12");
     }
 
+    @Says({"the SHORTEST", "the ROW: they."})
     static void promise40_ofEqualOnesTheLeastRow() {
         joins("0 9", "9", "0");
         joins("1 2 3", "3", "2", "1");
@@ -155,6 +166,7 @@ public final class EdgesOfPiecesTest {
         joins("0 1 2 3", "23", "10");
     }
 
+    @Says("the ROW: they.")
     static void promise40_fiveOfEightSounds() {
         joins("0 0 0 0 0 0 0 0 6 6 6 6 6 6 6 6 7 7 7 7 7 7 7 7 8 8 8 8 8 8 8 8 9 9 9 9 9 9 9 9",
                 "99999999", "77777777", "88888888", "66666666", "00000000");

@@ -12,6 +12,7 @@ public final class EdgesOfPlansTest {
 
     // ---- promise 21
 
+    @Says("A MARK more: how many.")
     static void promise21_howMany() {
         TapeRings x = new TapeRings();
         for (int n = 1; n <= 6; n++) {
@@ -22,12 +23,14 @@ public final class EdgesOfPlansTest {
         Edges.due("marks then", x.count(1), 6);
     }
 
+    @Says("Refused: others,")
     static void promise21_othersAreRefused() {
         Edges.range("tick", 0, 100000, Edges.FULL, (x, v) -> x.mark(v, 3));
         Edges.range("sound", 1, 9, Edges.FULL, (x, v) -> x.mark(3, v));
         Edges.refused("neither", Edges.FULL, x -> x.mark(-1, 0));
     }
 
+    @Says("6.")
     static void promise21_sixAreRefusedMore() {
         for (int sound = 1; sound <= 9; sound += 4) {
             int s = sound;
@@ -42,6 +45,7 @@ public final class EdgesOfPlansTest {
 
     // ---- promise 22
 
+    @Says("MARKS that are TRUE, as bits.")
     static void promise22_asBitsFromTheFirstMarkOn() {
         TapeRings x = ringOf("12", 0);
         Edges.due("of none", x.kept(), 0);
@@ -70,6 +74,7 @@ public final class EdgesOfPlansTest {
 
     // ---- promise 23
 
+    @Says("The sum of COSTS of the LEAST PLAN; the ROW: c, new START of each RING.")
     static void promise23_theSumAndTheRow() {
         TapeRings x = ringOf("001", 0);
         Check.ring(x, "02000", 1, 4);
@@ -80,6 +85,7 @@ public final class EdgesOfPlansTest {
         Edges.due("numbers of the row", x.count(5), 4);
     }
 
+    @Says("NONE: there is none (the ROW stays).")
     static void promise23_noneAndTheRowStays() {
         Edges.refused("plan() of none", x -> {
             Edges.FULL.on(x);
@@ -156,6 +162,7 @@ public final class EdgesOfPlansTest {
 
     // ---- promise 24
 
+    @Says("RINGS are CUT, have their new START:")
     static void promise24_ringsAreCutAndTurned() {
         TapeRings x = ringOf("12000", 4);
         x.mark(0, 1);
@@ -169,6 +176,7 @@ public final class EdgesOfPlansTest {
         Edges.due("make() again", x.make(), 0);
     }
 
+    @Says("NONE likewise.")
     static void promise24_noneAndNothingIsDone() {
         Edges.refused("make() of none", x -> {
             Edges.FULL.on(x);
@@ -193,6 +201,7 @@ public final class EdgesOfPlansTest {
         }, x -> x.make(), 0);
     }
 
+    @Says({"The LEAST PLAN is done:", "its sum."})
     static void promise24_theSumIsThatOfPlan() {
         TapeRings x = Edges.madeBy(Edges.FULL);
         int sum = x.plan();
@@ -217,6 +226,7 @@ public final class EdgesOfPlansTest {
 
     // ---- promise 25
 
+    @Says({"CUT of a RING by c: its LENGTH then", "Refused: others."})
     static void promise25_from0ToLengthLess1() {
         Edges.range("cut's c", 0, 4, Edges.FULL, (x, v) -> x.cut(0, v));
         Edges.range("cut's c of an inch alone", 0, 0, x -> Check.ring(x, "1", 0, 0), (x, v) -> x.cut(0, v));
@@ -226,11 +236,13 @@ public final class EdgesOfPlansTest {
         }
     }
 
+    @Says("Refused: others.")
     static void promise25_othersAreRefused() {
         Edges.range("cut's ring", 0, 1, Edges.FULL, (x, v) -> x.cut(v, 1));
         Edges.refused("cut(0, 0) without rings", Edges.NEW, x -> x.cut(0, 0));
     }
 
+    @Says("(a START that is gone is the one by it).")
     static void promise25_aStartThatIsGoneIsTheOneByIt() {
         int[][] due = {{4, 4, 5}, {4, 0, 4}, {4, 1, 3}, {4, 0, 2}, {4, 0, 1}, {3, 3, 4}, {3, 0, 3}, {3, 1, 2}, {2, 2, 3}};
         for (int[] d : due) {

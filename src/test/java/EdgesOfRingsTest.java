@@ -20,6 +20,7 @@ public final class EdgesOfRingsTest {
 
     // ---- promise 6
 
+    @Says("its number.")
     static void promise6_itsNumberIsThatOfTheRingsAhead() {
         TapeRings x = new TapeRings();
         Check.splice(x, "12");
@@ -33,6 +34,7 @@ public final class EdgesOfRingsTest {
         Edges.due("behind clear()", x.ring(0, 1), 0);
     }
 
+    @Says("Refused: it is empty,")
     static void promise6_refusedIfTheHandIsEmpty() {
         for (int start : new int[] {Integer.MIN_VALUE, -1, 0, 1, Integer.MAX_VALUE}) {
             Edges.refused("ring(0, " + start + ")", Edges.NEW, x -> x.ring(0, start));
@@ -40,16 +42,19 @@ public final class EdgesOfRingsTest {
         }
     }
 
+    @Says("no such MOTOR,")
     static void promise6_refusedIfThereIsNoSuchMotor() {
         Edges.range("ring's motor", 0, 1, Edges.FULL, (x, v) -> x.ring(v, 1));
     }
 
+    @Says("no such MOTOR, START;")
     static void promise6_refusedIfThereIsNoSuchStart() {
         Edges.range("ring's start", 0, 3, Edges.FULL, (x, v) -> x.ring(1, v));
         Edges.range("start of one inch", 0, 0, y -> Check.splice(y, "5"), (x, v) -> x.ring(0, v));
         Edges.range("start of 24", 0, 23, y -> Check.splice(y, "5*8*3"), (x, v) -> x.ring(0, v));
     }
 
+    @Says("4.")
     static void promise6_refusedIfThereAreFour() {
         Edges.range("the fourth", 0, 3, EdgesOfRingsTest::threeRings, (x, v) -> x.ring(0, v));
         Edges.refused("the fifth", x -> {
@@ -63,6 +68,7 @@ public final class EdgesOfRingsTest {
         x.ring(1, 3);
     }
 
+    @Says("A RING of the STRIP IN HAND:")
     static void promise6_aNewRingIsAsTold() {
         TapeRings x = Edges.madeBy(Edges.FULL);
         x.ring(1, 3);
@@ -81,10 +87,12 @@ public final class EdgesOfRingsTest {
 
     // ---- promise 7
 
+    @Says("Refused: no such RING,")
     static void promise7_refusedIfThereIsNoSuchRing() {
         Edges.range("over's ring", 0, 1, Edges.FULL, (x, v) -> x.over(v, 0, 1));
     }
 
+    @Says("no such RING, INCH,")
     static void promise7_refusedIfThereIsNoSuchInch() {
         Edges.range("over's inch", 0, 4, Edges.FULL, (x, v) -> x.over(0, v, 0));
         Edges.range("over's inch of the other ring", 0, 4, Edges.FULL, (x, v) -> x.over(1, v, 1));
@@ -94,10 +102,12 @@ public final class EdgesOfRingsTest {
         }, (x, v) -> x.over(0, v, 1));
     }
 
+    @Says("INCH, what,")
     static void promise7_refusedIfThereIsNoSuchWhat() {
         Edges.range("over's what", 0, 1, Edges.FULL, (x, v) -> x.over(0, 1, v));
     }
 
+    @Says("what 0: in place of what is there, 1: with it: how many INCHES became others.")
     static void promise7_inPlaceOrWithIt() {
         TapeRings x = ringOf("1[23]4", 0);
         Check.splice(x, "22");
@@ -114,6 +124,7 @@ public final class EdgesOfRingsTest {
         Edges.dueText("then", ringSeen(x, 0), "0 0 4");
     }
 
+    @Says("The STRIP IN HAND is laid over a RING from an INCH on, as far as it goes:")
     static void promise7_asFarAsItGoes() {
         TapeRings x = ringOf("11111", 0);
         Check.splice(x, "22");
@@ -142,6 +153,7 @@ public final class EdgesOfRingsTest {
 
     // ---- promise 8
 
+    @Says("MOTOR (what 0), START (1) of a RING becomes v: what it was.")
     static void promise8_motorAndStartBecomeV() {
         TapeRings x = ringOf("1234", 2);
         Edges.due("motor to 1", x.set(0, 0, 1), 0);
@@ -154,6 +166,7 @@ public final class EdgesOfRingsTest {
         Edges.due("its start", x.of(0, 2), 3);
     }
 
+    @Says("Refused: others.")
     static void promise8_othersAreRefused() {
         Edges.range("set's ring", 0, 1, Edges.FULL, (x, v) -> x.set(v, 0, 0));
         Edges.range("set's what", 0, 1, Edges.FULL, (x, v) -> x.set(0, v, 1));
@@ -167,6 +180,7 @@ public final class EdgesOfRingsTest {
 
     // ---- promise 9
 
+    @Says("A RING has a HEAD at an offset, or not: how many HEADS.")
     static void promise9_howManyHeads() {
         TapeRings x = ringOf("12", 0);
         Edges.due("one that is", x.head(0, 0, true), 1);
@@ -181,12 +195,14 @@ public final class EdgesOfRingsTest {
         Edges.due("the same again", x.head(0, 5, false), 23);
     }
 
+    @Says("Refused: no such RING, offset;")
     static void promise9_refusedIfThereIsNoSuchRingOrOffset() {
         Edges.range("head's ring", 0, 1, Edges.FULL, (x, v) -> x.head(v, 7, true));
         Edges.range("head's offset", 0, 23, Edges.FULL, (x, v) -> x.head(0, v, true));
         Edges.range("offset of none", 0, 23, Edges.FULL, (x, v) -> x.head(1, v, false));
     }
 
+    @Says("the last one.")
     static void promise9_theLastOneIsRefused() {
         Edges.refused("the last one at 0", x -> Check.ring(x, "12", 0, 0), x -> x.head(0, 0, false));
         Edges.refused("the last one at 23", x -> {
@@ -210,6 +226,7 @@ public final class EdgesOfRingsTest {
         }
     }
 
+    @Says("From a TICK on a MOTOR has a SPEED")
     static void promise10_fromATickOn() {
         TapeRings x = new TapeRings();
         Edges.due("from 2 on", x.motor(0, 2, 4), true);
@@ -221,6 +238,7 @@ public final class EdgesOfRingsTest {
         Edges.due("way to 3", x.way(0, 3), 2);
     }
 
+    @Says("(in place of what was told for this TICK): true.")
     static void promise10_inPlaceOfWhatWasTold() {
         TapeRings x = new TapeRings();
         x.motor(0, 2, 4);
@@ -231,12 +249,14 @@ public final class EdgesOfRingsTest {
         Edges.due("way to 9", x.way(0, 9), 1 + 3 + 0 + 6 * 3);
     }
 
+    @Says("Refused: others;")
     static void promise10_othersAreRefused() {
         Edges.range("motor", 0, 1, Edges.FULL, (x, v) -> Edges.of(x.motor(v, 3, 1)), 0);
         Edges.range("tick", 0, 5000, Edges.FULL, (x, v) -> Edges.of(x.motor(1, v, 0)), 0);
         Edges.range("speed", -9, 9, Edges.FULL, (x, v) -> Edges.of(x.motor(1, 4, v)), 0);
     }
 
+    @Says("12 TICKS of a MOTOR.")
     static void promise10_twelveTicksOfAMotorAtMost() {
         for (int motor = 0; motor < 2; motor++) {
             int m = motor;
@@ -271,6 +291,7 @@ public final class EdgesOfRingsTest {
 
     // ---- promise 11
 
+    @Says("how many RINGS there were.")
     static void promise11_howManyRingsThereWere() {
         TapeRings x = new TapeRings();
         Edges.due("none", x.clear(), 0);
@@ -284,6 +305,7 @@ public final class EdgesOfRingsTest {
         }
     }
 
+    @Says("No RINGS, MARKS; WISHES 0; SPEEDS as at first:")
     static void promise11_noMarksWishesSpeeds() {
         TapeRings x = Edges.madeBy(Edges.FULL);
         x.clear();
@@ -304,6 +326,7 @@ public final class EdgesOfRingsTest {
         Edges.due("a mark", x.mark(0, 1), 1);
     }
 
+    @Says("SPEEDS as at first:")
     static void promise11_steadyIs0Again() {
         TapeRings x = new TapeRings();
         x.motor(0, 3, 0);
@@ -333,6 +356,9 @@ public final class EdgesOfRingsTest {
 
     // ---- promise 12
 
+    @Says({"What 0: RINGS, 1: MARKS, 2: places of the OLD TAPE, 3: PIECES, 4: VERSIONS, 5: numbers of the "
+            + "ROW, 6: signs of THE TEXT, 7: INCHES of the STRIP IN HAND.",
+        "NONE for another what."})
     static void promise12_whatIsFrom0To7() {
         Edges.range("count", 0, 7, Edges.FULL, TapeRings::count);
         Edges.range("count of a new one", 0, 7, Edges.NEW, TapeRings::count);
@@ -367,6 +393,7 @@ public final class EdgesOfRingsTest {
 
     // ---- promise 13
 
+    @Says({"Of a RING, what 0: LENGTH, 1: MOTOR, 2: START, 3: HEADS as bits, 4: ROUND, 5: its WISH.", "another what."})
     static void promise13_whatIsFrom0To5() {
         Edges.rangeThrown("of's what", 0, 5, Edges.FULL, (x, v) -> x.of(1, v));
         TapeRings x = Edges.madeBy(Edges.FULL);
@@ -378,6 +405,7 @@ public final class EdgesOfRingsTest {
         }
     }
 
+    @Says("NoSuchElementException: none such,")
     static void promise13_noneSuchIsThrown() {
         Edges.rangeThrown("of's ring", 0, 1, Edges.FULL, (x, v) -> x.of(v, 0));
         for (int what = -1; what <= 6; what++) {
@@ -401,6 +429,7 @@ public final class EdgesOfRingsTest {
 
     // ---- promise 14
 
+    @Says("INCH i of a RING, as bits.")
     static void promise14_inchesFrom0ToTheLast() {
         Edges.range("inch", 0, 4, Edges.FULL, (x, v) -> x.inch(0, v));
         Edges.range("inch's ring", 0, 1, Edges.FULL, (x, v) -> x.inch(v, 0));
@@ -411,6 +440,7 @@ public final class EdgesOfRingsTest {
         Edges.dueText("all of the other", ringSeen(x, 1), "32 64 128 256 512");
     }
 
+    @Says("NONE: none such.")
     static void promise14_ofWhatIsCutThereIsNone() {
         Edges.range("inch", 0, 2, x -> {
             Edges.FULL.on(x);
@@ -418,6 +448,7 @@ public final class EdgesOfRingsTest {
         }, (x, v) -> x.inch(0, v));
     }
 
+    @Says("NONE: none such.")
     static void promise14_withoutRingsThereIsNone() {
         Edges.refused("inch(0, 0) of a new one", Edges.NEW, x -> x.inch(0, 0));
         Edges.refused("inch(0, 0) of what is cleared", x -> {

@@ -6,6 +6,7 @@ public final class EdgesOfSplicesTest {
 
     // ---- promise 1
 
+    @Says("nothing spliced, marked, kept.")
     static void promise1_nothingIsSplicedMarkedOrKept() {
         TapeRings x = new TapeRings();
         for (int what = 0; what <= 7; what++) {
@@ -26,6 +27,7 @@ public final class EdgesOfSplicesTest {
         Edges.noSuch("of(0, 0)", Edges.NEW, y -> y.of(0, 0));
     }
 
+    @Says("As told;")
     static void promise1_numbersAreAsTold() {
         TapeRings x = new TapeRings();
         Edges.due("NONE", TapeRings.NONE, -1);
@@ -63,6 +65,7 @@ public final class EdgesOfSplicesTest {
         x.end(n);
     }
 
+    @Says({"Four signs come", "of v the highest byte first:"})
     static void promise2_fourSignsTheHighestByteFirst() {
         TapeRings x = new TapeRings();
         Edges.due("sign", x.sign(0x31323334), 4);
@@ -74,6 +77,7 @@ public final class EdgesOfSplicesTest {
         Edges.due("splice() of 6", x.splice(), 2);
     }
 
+    @Says({"Four signs come behind THE TEXT,", "how many it has."})
     static void promise2_signsComeBehindTheText() {
         TapeRings x = new TapeRings();
         x.sign(0x31323334);
@@ -95,6 +99,7 @@ public final class EdgesOfSplicesTest {
         }
     }
 
+    @Says("Refused: there would be more than 100.")
     static void promise2_hundredSignsAtMost() {
         for (int n = 93; n <= 96; n++) {
             TapeRings x = new TapeRings();
@@ -114,6 +119,7 @@ public final class EdgesOfSplicesTest {
 
     // ---- promise 3
 
+    @Says("THE TEXT has its first n signs alone: true;")
     static void promise3_theFirstNSignsStay() {
         for (int n = 0; n <= 8; n++) {
             TapeRings x = new TapeRings();
@@ -126,6 +132,7 @@ public final class EdgesOfSplicesTest {
         }
     }
 
+    @Says("false if it has not so many, or n is below 0.")
     static void promise3_falseIfItHasNotSoManyOrBelow0() {
         Edges.range("end", 0, 3, Edges.FULL, (x, v) -> Edges.of(x.end(v)), 0);
         Edges.range("end of an empty one", 0, 0, Edges.NEW, (x, v) -> Edges.of(x.end(v)), 0);
@@ -152,6 +159,7 @@ public final class EdgesOfSplicesTest {
         }
     }
 
+    @Says("is a STRIP: the STRIP IN HAND: how many INCHES.")
     static void promise4_howManyInchesFrom1To24() {
         splices("1", 1);
         splices("12", 2);
@@ -160,6 +168,7 @@ public final class EdgesOfSplicesTest {
         splices("1*8*3/11", 24);
     }
 
+    @Says("-1 - p: the sign at p can't stand there")
     static void promise4_aSignThatCantStandThereIsTold() {
         splices("x", -1);
         splices("1x", -2);
@@ -169,6 +178,7 @@ public final class EdgesOfSplicesTest {
         splices("1" + "~".repeat(58) + "x", -60);
     }
 
+    @Says("(its end, if it ends too early;")
     static void promise4_itsEndIfItEndsTooEarly() {
         splices("", -1);
         splices("(", -2);
@@ -183,6 +193,7 @@ public final class EdgesOfSplicesTest {
         splices("1" + "~".repeat(58) + "*", -61);
     }
 
+    @Says("60, if it has more and the first 60 could go on or end);")
     static void promise4_sixtyIfItHasMore() {
         splices("1" + "~".repeat(59), 1);
         splices("1" + "~".repeat(60), -61);
@@ -193,6 +204,7 @@ public final class EdgesOfSplicesTest {
         splices("1".repeat(60), -100);
     }
 
+    @Says("-100 LONG;")
     static void promise4_longIs100Below0() {
         splices("1*8*3", 24);
         splices("1*8*31", -100);
@@ -201,6 +213,7 @@ public final class EdgesOfSplicesTest {
         splices("1".repeat(25), -100);
     }
 
+    @Says("-101 OVER")
     static void promise4_overIs101Below0() {
         splices("12/2(34)", 2);
         splices("12/3(345)", -101);
@@ -208,6 +221,7 @@ public final class EdgesOfSplicesTest {
         splices("1/21", -101);
     }
 
+    @Says("THE TEXT, which is empty then,")
     static void promise4_theTextIsEmptyThenAndCanBeginAgain() {
         TapeRings x = new TapeRings();
         x.sign(0x31312A39);
@@ -220,6 +234,7 @@ public final class EdgesOfSplicesTest {
         Edges.due("sign behind that", x.sign(0), 4);
     }
 
+    @Says("THE TEXT, which is empty then, is a STRIP:")
     static void promise4_aTextBehindOneThatIsNoneIsReadAnew() {
         String[] none = {"", "(", "(((((", "((((((", "1)", "1/1", "1*", "[1", "1*5*5", "(((1*5*5)))", "1*8*311",
             "1*8*31/12", "1/22", "((12/3(345)))", "1(2(3/2(45)", "123/3(45)", "[12]*9*9", "x"};
@@ -248,6 +263,7 @@ public final class EdgesOfSplicesTest {
 
     // ---- promise 5
 
+    @Says("INCH i of the STRIP IN HAND, as bits;")
     static void promise5_inchesFrom0ToTheLast() {
         Edges.range("hand", 0, 3, Edges.FULL, TapeRings::hand);
         Edges.range("hand of one inch", 0, 0, x -> Check.splice(x, "7"), TapeRings::hand);
@@ -256,12 +272,14 @@ public final class EdgesOfSplicesTest {
         Edges.dueText("all of them", Check.inHand(x), "514 4 256 0");
     }
 
+    @Says("NONE: none such (it is empty at first).")
     static void promise5_itIsEmptyAtFirst() {
         for (int i : new int[] {Integer.MIN_VALUE, -1, 0, 1, 23, 24, Integer.MAX_VALUE}) {
             Edges.refused("hand(" + i + ")", Edges.NEW, x -> x.hand(i));
         }
     }
 
+    @Says("NONE: none such")
     static void promise5_aShorterOneHasNoMoreOfTheLongerOne() {
         TapeRings x = new TapeRings();
         Check.splice(x, "12345");

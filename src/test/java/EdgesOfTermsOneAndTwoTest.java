@@ -28,6 +28,7 @@ public final class EdgesOfTermsOneAndTwoTest {
 
     // ---- term 1
 
+    @Says({"SOUNDS are 1 .. 9.", "a digit 0 .. 9 (one INCH with that SOUND; 0: nothing);"})
     static void term1_soundsAre1To9() {
         makes("0", "0");
         makes("1", "2");
@@ -47,6 +48,7 @@ public final class EdgesOfTermsOneAndTwoTest {
         Edges.refusedFalse("wish(0, bits 0 to 9)", Edges.FULL, y -> Edges.of(y.wish(0, 1023)));
     }
 
+    @Says("A STRIP: a row of 1 .. 24 INCHES.")
     static void term1_aStripHas1To24Inches() {
         makes("7", "128");
         answers("(0*8*2)(0*7)", 23);
@@ -55,6 +57,7 @@ public final class EdgesOfTermsOneAndTwoTest {
         answers("", -1);
     }
 
+    @Says("SPLICES: a text of at most 60 signs tells a STRIP.")
     static void term1_aTextHas60SignsAtMost() {
         answers("1" + "~".repeat(58), 1);
         answers("1" + "~".repeat(59), 1);
@@ -73,6 +76,7 @@ public final class EdgesOfTermsOneAndTwoTest {
         answers("1" + "~".repeat(58) + "/11", -61);
     }
 
+    @Says("A text is none at the first sign that can't stand where it is.")
     static void term1_aWrongSignAmongThe60IsToldAheadOfTheOnesTooMany() {
         answers("1" + "~".repeat(57) + "x~", -59);
         answers("1" + "~".repeat(58) + "x", -60);
@@ -82,6 +86,7 @@ public final class EdgesOfTermsOneAndTwoTest {
         answers("x" + "~".repeat(99), -1);
     }
 
+    @Says("ROW: a TERM, then any more TERMS, each of which may have /")
     static void term1_onlyTermsBehindTheFirstHaveASlash() {
         answers("/11", -1);
         answers("(/11)", -2);
@@ -92,6 +97,7 @@ public final class EdgesOfTermsOneAndTwoTest {
         makes("1/1[23]", "14");
     }
 
+    @Says("each of which may have / and a digit 1 .. 9 ahead of it.")
     static void term1_behindASlashStandsADigit1To9() {
         answers("1//", -3);
         answers("1/0", -3);
@@ -103,6 +109,7 @@ public final class EdgesOfTermsOneAndTwoTest {
         answers("1/", -3);
     }
 
+    @Says("a digit 1 .. 9 ahead of it.")
     static void term1_behindTheDigitOfASlashStandsATerm() {
         answers("1/1", -4);
         answers("1/1/1", -4);
@@ -113,6 +120,7 @@ public final class EdgesOfTermsOneAndTwoTest {
         makes("1/10", "2");
     }
 
+    @Says("* and a digit 2 .. 9 (so many times, one behind another),")
     static void term1_behindAStarStandsADigit2To9() {
         answers("1*", -3);
         answers("1*/", -3);
@@ -127,6 +135,7 @@ public final class EdgesOfTermsOneAndTwoTest {
         answers("1*(", -3);
     }
 
+    @Says("or [ and one digit 1 .. 9 or more and ] (one INCH with all these);")
     static void term1_inBracketsStandsOneDigit1To9OrMore() {
         answers("[", -2);
         answers("[]", -2);
@@ -147,6 +156,7 @@ public final class EdgesOfTermsOneAndTwoTest {
         answers("1]", -2);
     }
 
+    @Says("or ( and a ROW and ) (at most 5 of them in one another).")
     static void term1_fiveParenthesesInOneAnotherAtMost() {
         answers("((((1))))", 1);
         answers("(((((1)))))", 1);
@@ -158,6 +168,7 @@ public final class EdgesOfTermsOneAndTwoTest {
         answers("(((((", -6);
     }
 
+    @Says("or ( and a ROW and )")
     static void term1_parenthesesHoldARow() {
         answers("()", -2);
         answers("(", -2);
@@ -170,6 +181,7 @@ public final class EdgesOfTermsOneAndTwoTest {
         makes("(12/1(23)4)", "2 4 8 16");
     }
 
+    @Says({"TERM: an ATOM, then any of: *", "each done on what stands ahead of it."})
     static void term1_starAndTildeAreDoneOnWhatStandsAheadOfThem() {
         makes("12*2", "2 4 4");
         makes("(12)*2", "2 4 2 4");
@@ -181,6 +193,7 @@ public final class EdgesOfTermsOneAndTwoTest {
         makes("1*2*3", "2 2 2 2 2 2");
     }
 
+    @Says("~ (turned round: the last INCH first),")
     static void term1_turnedRoundIsTheLastInchFirst() {
         makes("1~", "2");
         makes("(12)~", "4 2");
@@ -190,6 +203,7 @@ public final class EdgesOfTermsOneAndTwoTest {
         makes("((0*8*2)(0*7)1)~", "2" + " 0".repeat(23));
     }
 
+    @Says("with / d a TERM is laid over the last d INCHES:")
     static void term1_aSlashedTermGoesWithAllItsStarsAndTildes() {
         makes("12/13*2", "2 12 8");
         makes("12/2(34)~", "18 12");
@@ -197,6 +211,7 @@ public final class EdgesOfTermsOneAndTwoTest {
         answers("12/23", -101);
     }
 
+    @Says("with / d a TERM is laid over the last d INCHES: these have the SOUNDS of both.")
     static void term1_laidOverTheLastD() {
         makes("123/1(45)", "2 4 24 32");
         makes("123/2(45)", "2 20 40");
@@ -205,6 +220,7 @@ public final class EdgesOfTermsOneAndTwoTest {
         makes("1/1(2/1(3/1(4/15)))", "62");
     }
 
+    @Says("as soon as d is more than the INCHES that stand ahead in the ROW,")
     static void term1_overIfDIsMoreThanStandAheadInTheRow() {
         answers("12/1(345)", 4);
         answers("12/2(345)", 3);
@@ -216,6 +232,7 @@ public final class EdgesOfTermsOneAndTwoTest {
         answers("1*91/9(2*9)", 10);
     }
 
+    @Says("or than those of the TERM, it is OVER")
     static void term1_overIfDIsMoreThanTheTermHas() {
         answers("123/1(45)", 4);
         answers("123/2(45)", 3);
@@ -225,6 +242,7 @@ public final class EdgesOfTermsOneAndTwoTest {
         answers("1*9/9(2*9)3", 10);
     }
 
+    @Says("the INCHES that stand ahead in the ROW,")
     static void term1_aheadInTheRowIsWithinItsParentheses() {
         answers("123(45/2(67))", 5);
         answers("123(4/2(67))", -101);
@@ -233,6 +251,7 @@ public final class EdgesOfTermsOneAndTwoTest {
         answers("(123)/4(4567)", -101);
     }
 
+    @Says({"as soon as a TERM (behind each * and ~ of it),", "has more than 24 INCHES, it is LONG;"})
     static void term1_longBehindEachStar() {
         answers("(0*5*4)000", 23);
         answers("0*6*4", 24);
@@ -245,6 +264,7 @@ public final class EdgesOfTermsOneAndTwoTest {
         answers("(0*6*2)*2", 24);
     }
 
+    @Says("or a ROW behind a TERM more, has more than 24 INCHES, it is LONG;")
     static void term1_longBehindATermMore() {
         answers("0*6*40", -100);
         answers("(0*6*4)0", -100);
@@ -256,6 +276,7 @@ public final class EdgesOfTermsOneAndTwoTest {
         answers("(0*6*4)/2(111)", -100);
     }
 
+    @Says("what is in parentheses as it is met:")
     static void term1_longWithinParenthesesAsMet() {
         answers("(0*5*5)", -100);
         answers("((0*9*2)(0*6))", 24);
@@ -264,6 +285,7 @@ public final class EdgesOfTermsOneAndTwoTest {
         answers("(0*5*5/12)", -100);
     }
 
+    @Says("it is OVER (asked ahead of LONG).")
     static void term1_overIsAskedAheadOfLong() {
         answers("1/1(2*9*9)", -100);
         answers("1/2(2*9*9)", -101);
@@ -271,6 +293,7 @@ public final class EdgesOfTermsOneAndTwoTest {
         answers("12/22*9*9", -100);
     }
 
+    @Says("is put together from the left, what is in parentheses as it is met: as soon as")
     static void term1_theFirstFaultFromTheLeftIsTold() {
         answers("0*5*5/91", -100);
         answers("1/22(0*5*5)", -101);
@@ -281,6 +304,7 @@ public final class EdgesOfTermsOneAndTwoTest {
         answers("11/2(3(0*5*5))", -100);
     }
 
+    @Says("One that can be read whole is put together")
     static void term1_aWrongSignIsToldAheadOfLongAndOver() {
         answers("0*9*9x", -6);
         answers("1/92x", -5);
@@ -298,6 +322,7 @@ public final class EdgesOfTermsOneAndTwoTest {
         return x;
     }
 
+    @Says("MOTORS 0, 1:")
     static void term2_motorsAre0And1() {
         Edges.range("motor", 0, 1, Edges.FULL, (x, v) -> Edges.of(x.motor(v, 9, 4)), 0);
         Edges.rangeThrown("way", 0, 1, Edges.FULL, (x, v) -> x.way(v, 9));
@@ -305,6 +330,7 @@ public final class EdgesOfTermsOneAndTwoTest {
         Edges.range("set", 0, 1, Edges.FULL, (x, v) -> x.set(0, 0, v));
     }
 
+    @Says("SPEED 1 at first;")
     static void term2_speedIs1AtFirst() {
         TapeRings x = new TapeRings();
         for (int t : new int[] {0, 1, 2, 4999, 5000, 5001, 1000000000}) {
@@ -313,6 +339,7 @@ public final class EdgesOfTermsOneAndTwoTest {
         }
     }
 
+    @Says("told from a TICK (0 .. 5000) on")
     static void term2_speedsAreToldFromTicks0To5000On() {
         Edges.range("motor's tick", 0, 5000, Edges.FULL, (x, v) -> Edges.of(x.motor(0, v, 4)), 0);
         TapeRings x = new TapeRings();
@@ -323,6 +350,7 @@ public final class EdgesOfTermsOneAndTwoTest {
         Edges.due("way to 5001 with 3 from 5000 on", x.way(1, 5001), 5003);
     }
 
+    @Says("on another one (-9 .. 9).")
     static void term2_speedsAreFrom9BelowTo9() {
         Edges.range("motor's speed", -9, 9, Edges.FULL, (x, v) -> Edges.of(x.motor(0, 7, v)), 0);
         for (int speed = -9; speed <= 9; speed++) {
@@ -332,6 +360,7 @@ public final class EdgesOfTermsOneAndTwoTest {
         }
     }
 
+    @Says("WAY of a MOTOR to TICK t: the sum of its SPEEDS at TICKS 0 .. t - 1.")
     static void term2_theWayIsTheSumOfTheTicksAhead() {
         TapeRings x = new TapeRings();
         x.motor(0, 3, 5);
@@ -342,6 +371,7 @@ public final class EdgesOfTermsOneAndTwoTest {
         }
     }
 
+    @Says("STEADY: the greatest TICK told for a MOTOR")
     static void term2_steadyIsTheGreatestTickToldNotTheLatest() {
         TapeRings x = ringOf("1000");
         x.motor(0, 6, 0);
@@ -356,6 +386,7 @@ public final class EdgesOfTermsOneAndTwoTest {
         Edges.due("often() from 8 on at way 7", x.often(), 0);
     }
 
+    @Says("RINGS 0 .. (at most 4):")
     static void term2_fourRingsAtMost() {
         TapeRings x = new TapeRings();
         Check.splice(x, "12");
@@ -371,6 +402,7 @@ public final class EdgesOfTermsOneAndTwoTest {
         x.ring(1, 2);
     }
 
+    @Says("HEADS: a set of offsets 0 .. 23 (0 alone at first).")
     static void term2_offsetsAre0To23AndAtFirst0Alone() {
         Edges.range("head", 0, 23, Edges.FULL, (x, v) -> x.head(0, v, true));
         TapeRings x = ringOf("12");
@@ -379,6 +411,7 @@ public final class EdgesOfTermsOneAndTwoTest {
         Edges.due("heads then", x.of(0, 3), 1 + (1 << 23));
     }
 
+    @Says("START and WAY and o, by LENGTH (from 0 on).")
     static void term2_aHeadIsByLengthFrom0On() {
         TapeRings x = ringOf("123");
         x.motor(0, 0, -1);
@@ -395,6 +428,7 @@ public final class EdgesOfTermsOneAndTwoTest {
         Edges.due("offset 23 of 3 from inch 2 on", x.heard(0, 0), 4);
     }
 
+    @Says("HEARD of a RING: all SOUNDS under its HEADS;")
     static void term2_heardIsOfAllHeads() {
         TapeRings x = ringOf("1234");
         x.head(0, 1, true);
@@ -405,6 +439,7 @@ public final class EdgesOfTermsOneAndTwoTest {
         Edges.due("5 is where 1 is", x.heard(0, 0), 2 + 4 + 16);
     }
 
+    @Says("HEARD in all: of all RINGS.")
     static void term2_heardInAllIsOfAllRings() {
         TapeRings x = new TapeRings();
         Edges.due("without rings", x.heard(-1, 0), 0);
@@ -428,6 +463,7 @@ public final class EdgesOfTermsOneAndTwoTest {
         return ticks;
     }
 
+    @Says({"ROUND of a RING: in how many TICKS (1 or more) behind STEADY", "first makes the WAY a multiple of LENGTH;"})
     static void term2_aRoundIs1TickOrMore() {
         for (int length = 1; length <= 24; length++) {
             TapeRings x = ringOf("0".repeat(length));
@@ -438,6 +474,7 @@ public final class EdgesOfTermsOneAndTwoTest {
         }
     }
 
+    @Says("behind STEADY its MOTOR first makes the WAY a multiple of LENGTH;")
     static void term2_aRoundIsOfTheOwnMotorBehindSteady() {
         TapeRings x = ringOf("0*6");
         x.motor(1, 9, 3);
@@ -450,6 +487,7 @@ public final class EdgesOfTermsOneAndTwoTest {
         Edges.due("run by the other one", x.of(0, 4), 2);
     }
 
+    @Says("(1 without RINGS).")
     static void term2_allIs1WithoutRings() {
         TapeRings x = new TapeRings();
         Edges.due("all() without rings", x.all(), 1);
@@ -461,6 +499,7 @@ public final class EdgesOfTermsOneAndTwoTest {
         Edges.due("all() behind clear()", x.all(), 1);
     }
 
+    @Says("ALL: the least TICKS that are multiples of all ROUNDS")
     static void term2_allIsTheLeastOfTheMultiples() {
         TapeRings x = ringOf("0*4");
         Check.ring(x, "0*6", 1, 0);
@@ -476,6 +515,7 @@ public final class EdgesOfTermsOneAndTwoTest {
         Edges.due("all() of 24, 23, 19, 17", x.all(), 24L * 23 * 19 * 17);
     }
 
+    @Says("A WISH: for each RING SOUNDS as bits (0 at first).")
     static void term2_aWishIs0AtFirst() {
         TapeRings x = ringOf("000");
         Edges.due("its wish", x.of(0, 5), 0);
@@ -483,6 +523,7 @@ public final class EdgesOfTermsOneAndTwoTest {
         Edges.due("often()", x.often(), 3);
     }
 
+    @Says("It MEETS at a TICK at which each RING's HEARD has all of its.")
     static void term2_meetsIfEachRingHasAllOfItsOwn() {
         TapeRings x = ringOf("[12]1200");
         Check.ring(x, "3000", 0, 0);

@@ -17,6 +17,7 @@ public final class EdgesOfTermsThreeToSevenTest {
 
     // ---- term 3
 
+    @Says("MARKS: at most 6:")
     static void term3_sixMarksAtMost() {
         TapeRings x = new TapeRings();
         for (int n = 1; n <= 6; n++) {
@@ -32,6 +33,7 @@ public final class EdgesOfTermsThreeToSevenTest {
         }
     }
 
+    @Says("a TICK (0 .. 100000),")
     static void term3_marksAreOfTicks0To100000() {
         Edges.range("mark's tick", 0, 100000, Edges.FULL, (x, v) -> x.mark(v, 1));
         TapeRings x = ringOf("120", 0);
@@ -41,6 +43,7 @@ public final class EdgesOfTermsThreeToSevenTest {
         Edges.due("kept()", x.kept(), 7);
     }
 
+    @Says("a TICK (0 .. 100000), a SOUND.")
     static void term3_marksAreOfSounds1To9() {
         Edges.range("mark's sound", 1, 9, Edges.FULL, (x, v) -> x.mark(4, v));
         TapeRings x = ringOf("[19]", 0);
@@ -51,6 +54,7 @@ public final class EdgesOfTermsThreeToSevenTest {
         Edges.due("kept()", x.kept(), 9);
     }
 
+    @Says("A mark is TRUE if that SOUND is in HEARD in all at that TICK.")
     static void term3_aMarkIsTrueByHeardInAllAtItsTick() {
         TapeRings x = ringOf("1000", 0);
         Check.ring(x, "0020", 1, 0);
@@ -64,6 +68,7 @@ public final class EdgesOfTermsThreeToSevenTest {
         Edges.due("kept() with a head more", x.kept(), 0b11001);
     }
 
+    @Says("CUT of a RING by c: its last c INCHES are gone.")
     static void term3_aCutTakesTheLastInches() {
         TapeRings x = ringOf("12345", 0);
         Edges.due("cut(0, 0)", x.cut(0, 0), 5);
@@ -75,6 +80,7 @@ public final class EdgesOfTermsThreeToSevenTest {
         Edges.due("the first one stays", x.inch(0, 0), 2);
     }
 
+    @Says("A PLAN: for each RING a c (0 .. LENGTH - 1)")
     static void term3_aPlanCutsFrom0ToLengthLess1() {
         TapeRings x = ringOf("1000", 0);
         x.mark(0, 1);
@@ -86,6 +92,7 @@ public final class EdgesOfTermsThreeToSevenTest {
         Edges.due("plan() of more than all", x.plan(), -1);
     }
 
+    @Says("and a new START (below LENGTH less c):")
     static void term3_aPlansStartIsBelowLengthLessC() {
         TapeRings x = ringOf("0010", 3);
         x.mark(0, 1);
@@ -100,6 +107,7 @@ public final class EdgesOfTermsThreeToSevenTest {
         Edges.due("plan() of an inch that would be cut", x.plan(), -1);
     }
 
+    @Says("COST 5 times c, and the size of new less old START.")
     static void term3_costsAre5ForEachInchCutAnd1ForEachTurned() {
         TapeRings x = ringOf("01000000", 0);
         x.mark(0, 1);
@@ -112,6 +120,7 @@ public final class EdgesOfTermsThreeToSevenTest {
         plans("of the same", x, 11, "1 1");
     }
 
+    @Says("of equal ones RING by RING the less c,")
     static void term3_ofEqualPlansTheLessC() {
         TapeRings x = ringOf("[12]000210", 0);
         x.mark(0, 1);
@@ -119,6 +128,7 @@ public final class EdgesOfTermsThreeToSevenTest {
         plans("of turning by 5 or cutting by 1", x, 5, "0 5");
     }
 
+    @Says("the less c, then the less START.")
     static void term3_ofEqualPlansThenTheLessStart() {
         TapeRings x = ringOf("1020100", 2);
         x.mark(0, 1);
@@ -127,6 +137,7 @@ public final class EdgesOfTermsThreeToSevenTest {
         plans("of a mark told twice", x, 2, "0 0");
     }
 
+    @Says("of equal ones RING by RING the less c, then the less START.")
     static void term3_ofEqualPlansRingByRing() {
         TapeRings x = ringOf("01", 0);
         x.ring(0, 0);
@@ -148,6 +159,7 @@ public final class EdgesOfTermsThreeToSevenTest {
         plans("of a cut of neither", x, 1, "0 0 0 1");
     }
 
+    @Says("of equal ones RING by RING the less c,")
     static void term3_theLessCOfTheFirstRingIsAheadOfAllElse() {
         TapeRings x = ringOf("[12]0", 0);
         x.ring(0, 0);
@@ -166,6 +178,7 @@ public final class EdgesOfTermsThreeToSevenTest {
         plans("of a cut of the second", x, 7, "0 2 1 0");
     }
 
+    @Says("of all PLANS by which all MARKS are TRUE")
     static void term3_aPlanIsOfTheTicksOfAllMarks() {
         TapeRings x = ringOf("12300000", 0);
         x.mark(99999, 2);
@@ -179,6 +192,7 @@ public final class EdgesOfTermsThreeToSevenTest {
         Edges.due("plan() of one tick more", x.plan(), -1);
     }
 
+    @Says("of all PLANS by which all MARKS are TRUE")
     static void term3_withoutMarksNothingIsDone() {
         TapeRings x = new TapeRings();
         plans("without rings", x, 0, "");
@@ -197,6 +211,7 @@ public final class EdgesOfTermsThreeToSevenTest {
         return x;
     }
 
+    @Says("ECHO: WEIGHTS of SOUNDS (0 .. 200; at first 100).")
     static void term4_weightsAre0To200AndAtFirst100() {
         Edges.range("weight", 0, 200, Edges.FULL, (x, v) -> x.weight(5, v));
         TapeRings x = sounding("1", 1);
@@ -207,6 +222,7 @@ public final class EdgesOfTermsThreeToSevenTest {
         }
     }
 
+    @Says("INPUT at TICK t: the sum of WEIGHTS of HEARD in all;")
     static void term4_inputIsOfEachSoundHeardOnce() {
         TapeRings x = sounding("[19]", 1);
         Check.ring(x, "[12]", 1, 0);
@@ -221,6 +237,7 @@ public final class EdgesOfTermsThreeToSevenTest {
         Edges.due("out(0) of nothing", x.out(0), 0);
     }
 
+    @Says("from TICK STOP (0 .. 2000; at first 0)")
     static void term4_stopIs0To2000AndAtFirst0() {
         Edges.range("stop", 0, 2000, Edges.FULL, (x, v) -> x.stop(v));
         TapeRings x = ringOf("1", 0);
@@ -230,6 +247,7 @@ public final class EdgesOfTermsThreeToSevenTest {
         Edges.due("out(2000)", x.out(2000), 0);
     }
 
+    @Says("from TICK STOP (0 .. 2000; at first 0) on 0.")
     static void term4_fromStopOnInputIs0() {
         TapeRings x = sounding("1", 3);
         Edges.due("out ahead of it", x.out(2), 100);
@@ -242,6 +260,7 @@ public final class EdgesOfTermsThreeToSevenTest {
         Edges.due("out(1) of stop 1", x.out(1), 0);
     }
 
+    @Says("Two heads behind: DELAYS d, e (1 .. 20; 1),")
     static void term4_delaysAre1To20() {
         Edges.range("the first delay", 1, 20, Edges.FULL, (x, v) -> Edges.of(x.heads(v, 50, 7, 40)), 0);
         Edges.range("the second delay", 1, 20, Edges.FULL, (x, v) -> Edges.of(x.heads(3, 50, v, 40)), 0);
@@ -253,6 +272,7 @@ public final class EdgesOfTermsThreeToSevenTest {
         Edges.due("out(21) of both", x.out(21), 15 + 15);
     }
 
+    @Says("GAINS a, b (0 .. 100; 0).")
     static void term4_gainsAre0To100AndAtFirst0() {
         Edges.range("the first gain", 0, 100, Edges.FULL, (x, v) -> Edges.of(x.heads(3, v, 7, 40)), 0);
         Edges.range("the second gain", 0, 100, Edges.FULL, (x, v) -> Edges.of(x.heads(3, 50, 7, v)), 0);
@@ -268,6 +288,7 @@ public final class EdgesOfTermsThreeToSevenTest {
         Edges.due("out(1) by both", x.out(1), 199);
     }
 
+    @Says("of a hundred of OUT at t - e, each cut")
     static void term4_eachOfBothIsCut() {
         TapeRings x = sounding("1", 1);
         x.weight(1, 10);
@@ -284,6 +305,7 @@ public final class EdgesOfTermsThreeToSevenTest {
         Edges.due("out(1) of 1", x.out(1), 1);
     }
 
+    @Says("each cut (0 ahead of TICK 0);")
     static void term4_aheadOfTick0ThereIs0() {
         TapeRings x = sounding("1", 30);
         x.heads(3, 50, 5, 20);
@@ -303,6 +325,7 @@ public final class EdgesOfTermsThreeToSevenTest {
         return x;
     }
 
+    @Says("5000 at most.")
     static void term4_outIs5000AtMost() {
         Edges.due("out(1) of 4999", loud("[12345678][123456789]", 199).out(1), 4999);
         Edges.due("out(1) of 5000", loud("[12345678][123456789]", 200).out(1), 5000);
@@ -321,6 +344,7 @@ public final class EdgesOfTermsThreeToSevenTest {
         Edges.due("out(5) goes on from that", x.out(5), 5000);
     }
 
+    @Says("Behind STOP: it DIES at the first TICK from STOP on")
     static void term4_itDiesAtTheFirstTickFromStopOn() {
         Edges.due("of nothing", new TapeRings().dies(), 0);
         TapeRings x = sounding("0", 7);
@@ -337,6 +361,7 @@ public final class EdgesOfTermsThreeToSevenTest {
         Edges.due("of the last stop", x.dies(), 2000);
     }
 
+    @Says("from which on OUT is 0 for ever;")
     static void term4_silenceIsNotDeathBefore20Ticks() {
         TapeRings x = sounding("1", 1);
         x.weight(1, 2);
@@ -351,6 +376,7 @@ public final class EdgesOfTermsThreeToSevenTest {
         Edges.due("of none", x.dies(), 1);
     }
 
+    @Says("else it GOES ROUND.")
     static void term4_elseItGoesRound() {
         TapeRings x = sounding("1", 1);
         x.heads(1, 100, 1, 0);
@@ -387,6 +413,7 @@ public final class EdgesOfTermsThreeToSevenTest {
         }
     }
 
+    @Says("OLD TAPE: a row of at most 60 places,")
     static void term5_sixtyPlacesAtMost() {
         TapeRings x = new TapeRings();
         for (int n = 1; n <= 60; n++) {
@@ -396,6 +423,7 @@ public final class EdgesOfTermsThreeToSevenTest {
         Edges.refused("a gap more than 60", EdgesOfTermsThreeToSevenTest::sixtyPlaces, y -> y.tape(-1));
     }
 
+    @Says("A SPAN p (1 .. 24) FITS,")
     static void term5_aSpanIs1To24() {
         TapeRings x = new TapeRings();
         Edges.due("the first one", x.span(0), 1);
@@ -410,6 +438,7 @@ public final class EdgesOfTermsThreeToSevenTest {
         Edges.due("24 apart there is a gap", x.span(0), 24);
     }
 
+    @Says("FITS, if no two places a multiple of p apart that are no GAPS are unlike.")
     static void term5_aSpanFitsIfNoTwoPlacesAMultipleApartAreUnlike() {
         Edges.due("once apart", taped(2, 4, 8, 4).span(0), 4);
         Edges.due("twice apart", taped(2, 2, 4).span(0), 3);
@@ -419,6 +448,7 @@ public final class EdgesOfTermsThreeToSevenTest {
         Edges.due("nothing alike", taped(0, 0).span(0), 1);
     }
 
+    @Says("a multiple of p apart that are no GAPS are unlike.")
     static void term5_gapsAreLikeAll() {
         Edges.due("a gap ahead", taped(-1, 2).span(0), 1);
         Edges.due("a gap behind", taped(2, -1).span(0), 1);
@@ -427,6 +457,7 @@ public final class EdgesOfTermsThreeToSevenTest {
         Edges.due("gaps alone", taped(-1, -1, -1).span(0), 1);
     }
 
+    @Says("A PAIR of SPANS p, q (p not above q, each 1 .. 24) FITS,")
     static void term5_aPairHasPNotAboveQEach1To24() {
         TapeRings x = new TapeRings();
         Edges.due("the first one", x.pair(0), 101);
@@ -441,6 +472,7 @@ public final class EdgesOfTermsThreeToSevenTest {
         }
     }
 
+    @Says("PAIRS stand by p and q together, then by p.")
     static void term5_pairsStandByTheirSumThenByP() {
         TapeRings x = new TapeRings();
         Edges.due("101, 102, 103", x.pair(2), 103);
@@ -451,6 +483,8 @@ public final class EdgesOfTermsThreeToSevenTest {
         Edges.due("the first of sum 26", x.pair(156), 224);
     }
 
+    @Says("so that each place t that is no GAP has just the SOUNDS of INCH t by p of the one and INCH t by "
+            + "q of the other together.")
     static void term5_aPairFitsIfBothTogetherHaveJustTheSounds() {
         TapeRings x = taped(6, 2, 2, 6, 2, 2);
         Edges.due("one of 1 and one of 3", x.pair(0), 103);
@@ -488,6 +522,7 @@ public final class EdgesOfTermsThreeToSevenTest {
         x.piece(0x30000000, 1);
     }
 
+    @Says("PIECES 0 .. (at most 5):")
     static void term6_fivePiecesAtMost() {
         TapeRings x = new TapeRings();
         for (int n = 0; n < 5; n++) {
@@ -496,6 +531,7 @@ public final class EdgesOfTermsThreeToSevenTest {
         Edges.refused("a piece more than 5", EdgesOfTermsThreeToSevenTest::fivePieces, y -> y.piece(0, 1));
     }
 
+    @Says("rows of 1 .. 8 SOUNDS")
     static void term6_aPieceHas1To8Sounds() {
         Edges.range("piece's sounds", 1, 8, Edges.FULL, (x, v) -> x.piece(0x12345678, v));
         joins("1", "1");
@@ -503,6 +539,7 @@ public final class EdgesOfTermsThreeToSevenTest {
         joins("1 2 3 4 5 6 7 8", "12345678");
     }
 
+    @Says("SOUNDS or nothing (0 .. 9),")
     static void term6_soundsAre0To9() {
         joins("0", "0");
         joins("9", "9");
@@ -511,6 +548,7 @@ public final class EdgesOfTermsThreeToSevenTest {
         Edges.refused("a digit of 15", Edges.FULL, y -> y.piece(0x9F000000, 2));
     }
 
+    @Says({"each of which may be turned round.", "each as it is or turned;"})
     static void term6_eachMayBeTurned() {
         joins("1 2 3", "321");
         joins("1 2 3 4 5", "321", "345");
@@ -518,6 +556,7 @@ public final class EdgesOfTermsThreeToSevenTest {
         joins("1 2 3 4 5", "321", "543");
     }
 
+    @Says("each but the first laid over the end of all that lies so far with the most it can be alike in")
     static void term6_laidOverTheEndWithTheMost() {
         joins("1 1 2", "11", "112");
         joins("1 2 1 2 3", "1212", "123");
@@ -525,6 +564,7 @@ public final class EdgesOfTermsThreeToSevenTest {
         joins("0 0 0 2 2 0 1 2", "210", "22000", "20");
     }
 
+    @Says("with the most it can be alike in (as long as the shorter one at most).")
     static void term6_alikeAsLongAsTheShorterOneAtMost() {
         joins("1 2 3", "123", "23");
         joins("1 2 3", "23", "123");
@@ -534,6 +574,7 @@ public final class EdgesOfTermsThreeToSevenTest {
         joins("1 2 3 2", "123", "2");
     }
 
+    @Says("SHORTEST: the fewest SOUNDS; of equal ones the least row.")
     static void term6_theShortestAndOfEqualOnesTheLeastRow() {
         joins("1 2", "2", "1");
         joins("1 2 3", "3", "1", "2");
@@ -543,6 +584,7 @@ public final class EdgesOfTermsThreeToSevenTest {
         joins("0 1 2 3", "32", "01");
     }
 
+    @Says("PIECES 0 .. (at most 5):")
     static void term6_withoutPieces0() {
         TapeRings x = new TapeRings();
         Edges.due("join() at first", x.join(), 0);
@@ -553,6 +595,7 @@ public final class EdgesOfTermsThreeToSevenTest {
         Edges.due("the row then", x.count(5), 0);
     }
 
+    @Says("JOINED: all in some order,")
     static void term6_fortySoundsAtMost() {
         joins("1 1 1 1 1 1 1 1 2 2 2 2 2 2 2 2 3 3 3 3 3 3 3 3 4 4 4 4 4 4 4 4 5 5 5 5 5 5 5 5",
                 "55555555", "33333333", "44444444", "22222222", "11111111");
@@ -567,6 +610,7 @@ public final class EdgesOfTermsThreeToSevenTest {
         }
     }
 
+    @Says("VERSIONS 0 .. (at most 16):")
     static void term7_sixteenVersionsAtMost() {
         TapeRings x = ringOf("1", 0);
         for (int n = 0; n < 16; n++) {
@@ -575,6 +619,7 @@ public final class EdgesOfTermsThreeToSevenTest {
         Edges.refused("a version more than 16", EdgesOfTermsThreeToSevenTest::sixteenVersions, y -> y.keep(0, 999));
     }
 
+    @Says("each of a RING and a DAY (not below the one's ahead).")
     static void term7_aDayIsNotBelowTheOnesAhead() {
         TapeRings x = ringOf("1", 0);
         Edges.due("keep(0, 0)", x.keep(0, 0), 0);
@@ -595,6 +640,7 @@ public final class EdgesOfTermsThreeToSevenTest {
         Edges.due("edits of " + other + ", " + one, x.edits(1, 0), edits);
     }
 
+    @Says("EDITS of two STRIPS: the fewest of: an INCH changed, one put in, one taken out,")
     static void term7_editsAreChangesPuttingInAndTakingOut() {
         editing("123", "123", 0);
         editing("123", "143", 1);
@@ -607,6 +653,7 @@ public final class EdgesOfTermsThreeToSevenTest {
         editing("1*8*3", "1", 23);
     }
 
+    @Says("so that the one is the other, turned by any number of INCHES (as a ring).")
     static void term7_editsAreOverAllTurns() {
         editing("1234", "2341", 0);
         editing("1234", "4123", 0);
@@ -617,12 +664,14 @@ public final class EdgesOfTermsThreeToSevenTest {
         editing("12345", "54321", 4);
     }
 
+    @Says("an INCH changed,")
     static void term7_anInchIsLikeAnotherByAllItsSounds() {
         editing("[12]", "1", 1);
         editing("[12]3", "3[21]", 0);
         editing("0", "1", 1);
     }
 
+    @Says("ROW: numbers told last by a call that says so.")
     static void term7_theRowIsWhatWasToldLast() {
         TapeRings x = ringOf("12", 1);
         Edges.due("count(5) at first", x.count(5), 0);
@@ -642,6 +691,7 @@ public final class EdgesOfTermsThreeToSevenTest {
         Edges.dueText("dies() tells none if it dies", Check.row(x), "4 1");
     }
 
+    @Says("NONE is asked ahead of other answers below 0 (what a TEXT tells wrongly aside).")
     static void term7_noneIsAskedAheadOfOtherAnswers() {
         TapeRings x = new TapeRings();
         Edges.due("over() of what is empty", x.over(0, 0, 0), -1);
@@ -650,6 +700,7 @@ public final class EdgesOfTermsThreeToSevenTest {
     }
 
     /** One call of each that can be refused, on an object that holds something of all. */
+    @Says("Refused calls answer NONE, or false, and change nothing.")
     static void term7_refusedCallsChangeNothing() {
         int far = Integer.MAX_VALUE;
         Edges.refusedFalse("end", Edges.FULL, x -> Edges.of(x.end(far)));

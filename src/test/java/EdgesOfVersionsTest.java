@@ -16,6 +16,7 @@ public final class EdgesOfVersionsTest {
 
     // ---- promise 41
 
+    @Says("the VERSION.")
     static void promise41_theVersion() {
         TapeRings x = ringOf("12", 0);
         for (int n = 0; n < 16; n++) {
@@ -26,6 +27,7 @@ public final class EdgesOfVersionsTest {
         Edges.due("versions then", x.count(4), 16);
     }
 
+    @Says("Refused: no such RING,")
     static void promise41_refusedIfThereIsNoSuchRing() {
         Edges.range("keep's ring", 0, 1, Edges.FULL, (x, v) -> x.keep(v, 9));
         Edges.refused("keep(0, 9) without rings", Edges.NEW, x -> x.keep(0, 9));
@@ -35,10 +37,12 @@ public final class EdgesOfVersionsTest {
         }, x -> x.keep(0, 9));
     }
 
+    @Says("on a DAY (0 .. 999):")
     static void promise41_daysAre0To999() {
         Edges.range("keep's day", 0, 999, EdgesOfVersionsTest::oneRing, (x, v) -> x.keep(0, v));
     }
 
+    @Says("a DAY below the latest one's,")
     static void promise41_refusedADayBelowTheLatestOnes() {
         Edges.range("keep's day behind 7", 7, 999, Edges.FULL, (x, v) -> x.keep(0, v));
         Edges.range("keep's day behind 0", 0, 999, x -> {
@@ -51,6 +55,7 @@ public final class EdgesOfVersionsTest {
         }, (x, v) -> x.keep(1, v));
     }
 
+    @Says("a DAY below the latest one's,")
     static void promise41_theFirstVersionsDayBindsTheSecond() {
         Edges.range("keep's day behind 500 alone", 500, 999, x -> {
             oneRing(x);
@@ -58,6 +63,7 @@ public final class EdgesOfVersionsTest {
         }, (x, v) -> x.keep(0, v));
     }
 
+    @Says("16.")
     static void promise41_refusedIfThereAre16() {
         for (int day : new int[] {30, 31, 999}) {
             Edges.refused("a 17th at " + day, x -> {
@@ -69,6 +75,7 @@ public final class EdgesOfVersionsTest {
         }
     }
 
+    @Says("A RING's STRIP is kept")
     static void promise41_laterChangesLeaveIt() {
         TapeRings x = ringOf("123", 0);
         x.keep(0, 1);
@@ -83,6 +90,7 @@ public final class EdgesOfVersionsTest {
 
     // ---- promise 42
 
+    @Says("of a DAY not above one;")
     static void promise42_ofADayNotAbove() {
         TapeRings x = ringOf("12", 0);
         x.keep(0, 5);
@@ -94,6 +102,7 @@ public final class EdgesOfVersionsTest {
         }
     }
 
+    @Says("The latest VERSION of a RING")
     static void promise42_theLatestOfOneDay() {
         TapeRings x = ringOf("12", 0);
         x.ring(0, 0);
@@ -107,6 +116,7 @@ public final class EdgesOfVersionsTest {
         Edges.due("known(1, 6)", x.known(1, 6), 3);
     }
 
+    @Says("NONE: none such.")
     static void promise42_noneSuch() {
         Edges.range("known's ring", 0, 1, Edges.FULL, (x, v) -> x.known(v, 7));
         for (int ring : new int[] {-1, 0, 1, 3, 4}) {
@@ -127,6 +137,7 @@ public final class EdgesOfVersionsTest {
 
     // ---- promise 43
 
+    @Says("The STRIP IN HAND is that of a VERSION: how many INCHES.")
     static void promise43_howManyInches() {
         for (int n : new int[] {1, 2, 23, 24}) {
             TapeRings x = ringOf("7".repeat(n), 0);
@@ -139,6 +150,7 @@ public final class EdgesOfVersionsTest {
         }
     }
 
+    @Says("Refused: none such.")
     static void promise43_noneSuchIsRefused() {
         Edges.range("fetch", 0, 1, Edges.FULL, TapeRings::fetch);
         Edges.refused("fetch(0) of none", Edges.NEW, x -> x.fetch(0));
@@ -179,6 +191,7 @@ public final class EdgesOfVersionsTest {
         Edges.due("edits of " + other + ", " + one, x.edits(1, 0), due);
     }
 
+    @Says("NONE: none such.")
     static void promise44_noneSuch() {
         Edges.range("edits' a", 0, 1, Edges.FULL, (x, v) -> x.edits(v, 0));
         Edges.range("edits' b", 0, 1, Edges.FULL, (x, v) -> x.edits(0, v));
@@ -194,6 +207,7 @@ public final class EdgesOfVersionsTest {
         }
     }
 
+    @Says("EDITS of two VERSIONS.")
     static void promise44_from0ToTheLongerOne() {
         edits("1", "2", 1);
         edits("1", "2*8*3", 24);
@@ -203,6 +217,7 @@ public final class EdgesOfVersionsTest {
         edits("(123)*8", "(231)*8", 0);
     }
 
+    @Says("EDITS of two VERSIONS.")
     static void promise44_turnedByAnyNumber() {
         for (int turn = 0; turn < 7; turn++) {
             String turned = "1234567".substring(turn) + "1234567".substring(0, turn);
@@ -222,6 +237,7 @@ public final class EdgesOfVersionsTest {
 
     // ---- promise 45
 
+    @Says({"Number i of the ROW.", "NoSuchElementException: none such."})
     static void promise45_numbersFrom0ToTheLast() {
         Edges.rangeThrown("row", 0, 3, Edges.FULL, TapeRings::row);
         Edges.rangeThrown("row of one", 0, 0, x -> {
@@ -236,12 +252,14 @@ public final class EdgesOfVersionsTest {
         }, TapeRings::row);
     }
 
+    @Says("NoSuchElementException: none such.")
     static void promise45_noneSuchAtFirst() {
         for (int i : new int[] {Integer.MIN_VALUE, -1, 0, 1, 39, 40, Integer.MAX_VALUE}) {
             Edges.noSuch("row(" + i + ")", Edges.NEW, x -> x.row(i));
         }
     }
 
+    @Says("NoSuchElementException: none such.")
     static void promise45_aShorterRowHasNoMoreOfTheLongerOne() {
         Edges.rangeThrown("row of plan() behind join()", 0, 1, x -> {
             x.piece(0x12345678, 8);
@@ -264,6 +282,7 @@ public final class EdgesOfVersionsTest {
         }, x -> x.row(0));
     }
 
+    @Says("Number i of the ROW.")
     static void promise45_theRowIsThatOfTheTimeAtWhichItWasTold() {
         TapeRings x = Edges.madeBy(Edges.FULL);
         x.plan();
