@@ -6,7 +6,7 @@ import java.util.List;
 import java.util.NoSuchElementException;
 
 /**
- * What the tests of the edges share. A test of an edge is a static method without arguments whose name begins with
+ * What the tests of edges and sentences share. Such a test is a static method without arguments whose name begins with
  * the promise or the term on which it stands: promise6_.., term1_... A call that is refused is made on one of two
  * objects made alike; all that can be seen of both has to be alike then.
  */

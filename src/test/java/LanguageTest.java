@@ -1,14 +1,28 @@
 import java.io.IOException;
+import java.io.PrintWriter;
+import java.io.StringWriter;
 import java.lang.management.ManagementFactory;
+import java.lang.reflect.Field;
+import java.lang.reflect.Method;
 import java.nio.file.Files;
 import java.nio.file.Path;
+import java.util.ArrayList;
 import java.util.List;
+import java.util.Map;
+import java.util.Set;
+import java.util.TreeMap;
+import java.util.TreeSet;
 import java.util.regex.Matcher;
 import java.util.regex.Pattern;
+import java.util.spi.ToolProvider;
 
-/** What of ../shared/LANGUAGE.md a program can see: words that the class may not use, how long its methods are, what its calls make. */
+/**
+ * What of ../shared/LANGUAGE.md a program can see: words that the class may not use, its types, how long its methods
+ * are and how deep they call one another, what its calls make.
+ */
 public final class LanguageTest {
     private static final Check check = new Check("LanguageTest");
+    private static final String RECURSION = "TapeRings$Pieces.layRest";
     private static final List<String> FORBIDDEN = List.of("->", "::", "Exact\\(", "\\bcatch\\b", "\\bfinally\\b",
             "\\bsynchronized\\b", "\\bassert\\b", "static \\{", "\\bvar\\b", "\\bObject\\b", "\\.equals\\(", "hashCode",
             "toString", "System\\.(?!arraycopy)", "Math\\.(?!min|max|abs|floorMod|floorDiv)", "Integer\\.(?!bitCount)",
@@ -20,6 +34,11 @@ public final class LanguageTest {
         String code = source.replaceAll("(?s)/\\*.*?\\*/", "").replaceAll("//[^\n]*", "");
         words(code);
         methods(code);
+        types(TapeRings.class);
+        for (Class<?> inside : TapeRings.class.getDeclaredClasses()) {
+            types(inside);
+        }
+        depths();
         made();
         check.end();
     }
@@ -51,6 +70,73 @@ public final class LanguageTest {
                 check.due(0, "a long method at line " + begin, ofMethod && i - begin > 60, false);
             }
         }
+    }
+
+    private static void types(Class<?> c) {
+        List<Class<?>> used = new ArrayList<>();
+        for (Field f : c.getDeclaredFields()) {
+            used.add(f.getType());
+        }
+        for (Method m : c.getDeclaredMethods()) {
+            used.add(m.getReturnType());
+            used.addAll(List.of(m.getParameterTypes()));
+        }
+        for (Class<?> type : used) {
+            check.due(0, c + " uses " + type, isAllowed(type), true);
+        }
+    }
+
+    /** Numbers and own classes, rows of these, rows of rows of numbers. */
+    private static boolean isAllowed(Class<?> type) {
+        if (!type.isArray()) {
+            return type.isPrimitive() || type.getName().startsWith("TapeRings$");
+        }
+        Class<?> inner = type.getComponentType();
+        return inner.isArray() ? inner.getComponentType().isPrimitive() : isAllowed(inner);
+    }
+
+    /** No call goes more than eight deep, the library's functions counted; one method alone calls itself. */
+    private static void depths() {
+        Map<String, Set<String>> calls = callsOfAll();
+        check.due(0, "methods that javap tells", calls.size() > 100, true);
+        for (String method : calls.keySet()) {
+            check.due(0, method + " goes deep: " + depth(calls, method, 0), depth(calls, method, 0) <= 8, true);
+            check.due(0, method + " calls itself", calls.get(method).contains(method), method.equals(RECURSION));
+        }
+    }
+
+    private static Map<String, Set<String>> callsOfAll() {
+        Map<String, Set<String>> calls = new TreeMap<>();
+        List<Class<?>> classes = new ArrayList<>(List.of(TapeRings.class.getDeclaredClasses()));
+        classes.add(TapeRings.class);
+        for (Class<?> c : classes) {
+            StringWriter told = new StringWriter();
+            ToolProvider.findFirst("javap").orElseThrow().run(new PrintWriter(told), new PrintWriter(told), "-c", "-p",
+                    "-cp", System.getProperty("java.class.path"), c.getName());
+            String method = "";
+            for (String line : told.toString().split("\n")) {
+                Matcher head = Pattern.compile("  \\S.*?([\\w$]+)\\(.*").matcher(line);
+                Matcher call = Pattern.compile(".*// Method (?:([\\w$/]+)\\.)?\"?([\\w<>]+)\"?:.*").matcher(line);
+                if (head.matches()) {
+                    method = c.getName() + "." + head.group(1);
+                    calls.put(method, new TreeSet<>());
+                } else if (call.matches()) {
+                    String of = call.group(1) == null ? c.getName() : call.group(1).replace('/', '.');
+                    calls.get(method).add(of + "." + call.group(2));
+                }
+            }
+        }
+        return calls;
+    }
+
+    private static int depth(Map<String, Set<String>> calls, String method, int ahead) {
+        int deepest = 0;
+        for (String called : calls.getOrDefault(method, Set.of())) {
+            if (!called.equals(method) && ahead < 50) {
+                deepest = Math.max(deepest, depth(calls, called, ahead + 1));
+            }
+        }
+        return deepest + 1;
     }
 
     /** All calls of a run share one room, so no call makes anything: the constructor makes all rows. */

@@ -16,7 +16,7 @@ public final class SentencesCoverTest {
             EdgesOfTermsThreeToSevenTest.class, EdgesOfSplicesTest.class, EdgesOfRingsTest.class,
             EdgesOfHeardTest.class, EdgesOfPlansTest.class, EdgesOfEchoesTest.class,
             EdgesOfOldTapesTest.class, EdgesOfPiecesTest.class, EdgesOfVersionsTest.class,
-            SentencesOfTermsTest.class, SentencesOfPromisesTest.class);
+            SentencesOfTermsTest.class, SentencesOfPromisesTest.class, ChangesOfPromisesTest.class);
 
     private static final Map<String, BitSet> said = new TreeMap<>();
 

@@ -6,14 +6,11 @@ import java.nio.file.Files;
 import java.nio.file.Path;
 import java.util.ArrayList;
 import java.util.Arrays;
-import java.util.HashMap;
 import java.util.List;
-import java.util.Map;
 import java.util.NoSuchElementException;
 import java.util.Random;
-import java.util.TreeSet;
 
-/** What the promises say besides their edges: what calls do alone, what they answer by what others answer, 512 calls. */
+/** What the promises say besides their edges: 512 calls, the interface, what calls answer by what others answer. */
 public final class SentencesOfPromisesTest {
     public static void main(String[] args) {
         Edges.run(SentencesOfPromisesTest.class);
@@ -238,54 +235,7 @@ public final class SentencesOfPromisesTest {
         saysAhead("versions", "keep", "known", "fetch", "edits", "row");
     }
 
-    // ---- what a call changes: this alone can be seen to be another then
-
-    private static final String TEXT = "count\\(6\\)|end.*|splice.*|hand.*|count\\(7\\)";
-    private static final String HAND = "hand.*|count\\(7\\)";
-    private static final String HEARD = "heard.*|all.*|meets.*|often.*|kept.*|out.*|dies.*|plan.*|make.*|row.*|count\\(5\\)|of.*";
-    private static final String ROW = "row.*|count\\(5\\)";
-    private static final String TAPE = "span.*|pair.*|mended.*|count\\(2\\)|wipe.*";
-
-    /** What is seen of two objects made alike, one with and one without the call, is alike but for this. */
-    private static void changes(String call, String changed, Edges.Call made) {
-        boolean some = false;
-        for (int part = 0; part < Seen.PARTS; part++) {
-            TapeRings called = Edges.madeBy(Edges.FULL);
-            made.on(called);
-            Map<String, String> of = lines(Seen.of(called, part));
-            Map<String, String> without = lines(Seen.of(Edges.madeBy(Edges.FULL), part));
-            TreeSet<String> all = new TreeSet<>(of.keySet());
-            all.addAll(without.keySet());
-            for (String line : all) {
-                boolean alike = of.getOrDefault(line, "").equals(without.getOrDefault(line, ""));
-                Edges.due(call + " changes " + line, !alike && !line.matches("(" + changed + ") #\\d+"), false);
-                some |= !alike;
-            }
-        }
-        Edges.due(call + " changes something", some, true);
-    }
-
-    private static Map<String, String> lines(String seen) {
-        Map<String, Integer> times = new HashMap<>();
-        Map<String, String> lines = new HashMap<>();
-        for (String line : seen.split("\n")) {
-            String call = line.substring(0, line.indexOf(" = "));
-            lines.put(call + " #" + times.merge(call, 1, Integer::sum), line.substring(line.indexOf(" = ")));
-        }
-        return lines;
-    }
-
-    static void promise2_changesTheTextAlone() {
-        changes("sign", TEXT, x -> x.sign(0x31313131));
-    }
-
-    static void promise3_changesTheTextAlone() {
-        changes("end", TEXT, x -> Edges.of(x.end(1)));
-    }
-
-    static void promise4_changesTheTextAndTheHandAlone() {
-        changes("splice", TEXT, x -> x.splice());
-    }
+    // ---- what stays
 
     @Says("-101 OVER (the STRIP IN HAND stays).")
     static void promise4_theStripInHandStays() {
@@ -300,10 +250,6 @@ public final class SentencesOfPromisesTest {
         }
     }
 
-    static void promise6_makesARingAlone() {
-        changes("ring", HEARD + "|count\\(0\\)|inch.*|clear.*", x -> x.ring(0, 0));
-    }
-
     @Says("Refused: no such RING, INCH, what, it is empty.")
     static void promise7_refusedIfItIsEmpty() {
         for (int what = -1; what <= 2; what++) {
@@ -313,120 +259,8 @@ public final class SentencesOfPromisesTest {
         Edges.due("inches in hand", new TapeRings().count(7), 0);
     }
 
-    static void promise7_changesTheInchesOfTheRingAlone() {
-        changes("over", HEARD.replace("of.*", "of\\([01], 2\\)") + "|inch\\(0.*", x -> x.over(0, 1, 0));
-    }
-
-    static void promise8_changesTheMotorOrTheStartAlone() {
-        changes("set motor", HEARD.replace("of.*", "of\\(0, [124]\\)"), x -> x.set(0, 0, 1));
-        changes("set start", HEARD.replace("of.*", "of\\(0, 2\\)"), x -> x.set(0, 1, 4));
-    }
-
-    static void promise9_changesTheHeadsAlone() {
-        changes("head", HEARD.replace("of.*", "of\\([01], [23]\\)"), x -> x.head(0, 2, true));
-    }
-
-    static void promise10_changesTheWayAlone() {
-        changes("motor", HEARD.replace("of.*", "of\\([01], [24]\\)") + "|way\\(0.*", x -> Edges.of(x.motor(0, 2, 5)));
-    }
-
-    static void promise11_changesRingsMarksAndWaysAlone() {
-        changes("clear", HEARD + "|way.*|inch.*|count\\([01]\\)|clear.*", x -> x.clear());
-    }
-
     static void promise14_askingChangesNothing() {
         Edges.asks("inch(0, 2)", Edges.FULL, x -> x.inch(0, 2));
-    }
-
-    static void promise18_changesTheWishAlone() {
-        changes("wish", "of\\(0, 5\\)|meets.*|often.*", x -> Edges.of(x.wish(0, 16)));
-    }
-
-    static void promise21_changesTheMarksAlone() {
-        changes("mark", "count\\(1\\)|kept.*|plan.*|make.*|of.*|inch.*|" + ROW, x -> x.mark(1, 9));
-    }
-
-    static void promise23_changesTheRowAlone() {
-        changes("plan", ROW, x -> x.plan());
-    }
-
-    static void promise24_changesWhatThePlanTellsAlone() {
-        changes("make", HEARD.replace("of.*", "of\\([01], [024]\\)") + "|inch.*", x -> x.make());
-    }
-
-    static void promise25_changesTheRingAlone() {
-        changes("cut", HEARD + "|inch\\(0.*", x -> x.cut(0, 2));
-    }
-
-    static void promise26_changesTheWeightAlone() {
-        changes("weight", "out.*|dies.*|weight\\(1, 50\\)|" + ROW, x -> x.weight(1, 60));
-    }
-
-    static void promise27_changesTheEchoAlone() {
-        changes("heads", "out.*|dies.*|" + ROW, x -> Edges.of(x.heads(1, 30, 2, 20)));
-    }
-
-    static void promise28_changesTheStopAlone() {
-        changes("stop", "out.*|dies.*|stop.*|" + ROW, x -> x.stop(7));
-    }
-
-    static void promise30_changesTheRowAlone() {
-        Edges.Making round = x -> {
-            Edges.FULL.on(x);
-            x.heads(20, 100, 1, 0);
-        };
-        TapeRings x = Edges.madeBy(round);
-        x.dies();
-        Edges.dueText("the row", Check.row(x), "30 20");
-        x.join();
-        for (int part = 0; part < Seen.PARTS; part++) {
-            TapeRings y = Edges.madeBy(round);
-            y.dies();
-            y.join();
-            Edges.dueText("all else", Seen.of(y, part), Seen.of(Edges.madeBy(round), part));
-        }
-    }
-
-    static void promise31_changesTheOldTapeAlone() {
-        changes("tape", TAPE, x -> x.tape(8));
-    }
-
-    static void promise32_changesTheOldTapeAlone() {
-        changes("take", TAPE, x -> Edges.of(x.take(3, 9)));
-    }
-
-    static void promise33_changesTheOldTapeAlone() {
-        changes("gap", TAPE, x -> Edges.of(x.gap(6)));
-    }
-
-    static void promise34_changesTheOldTapeAlone() {
-        changes("wipe", TAPE, x -> x.wipe());
-    }
-
-    static void promise38_changesThePiecesAlone() {
-        changes("piece", "count\\(3\\)|join.*|burn.*|" + ROW, x -> x.piece(0x99000000, 2));
-    }
-
-    static void promise39_changesThePiecesAlone() {
-        changes("burn", "count\\(3\\)|join.*|burn.*|" + ROW, x -> x.burn());
-    }
-
-    static void promise40_changesTheRowAlone() {
-        changes("join", ROW, x -> {
-            x.piece(0x99000000, 2);
-            x.join();
-            x.burn();
-            x.piece(0x12300000, 3);
-            return x.piece(0x43000000, 2);
-        });
-    }
-
-    static void promise41_changesTheVersionsAlone() {
-        changes("keep", "count\\(4\\)|known.*|edits.*|fetch.*|" + HAND, x -> x.keep(0, 9));
-    }
-
-    static void promise43_changesTheHandAlone() {
-        changes("fetch", HAND, x -> x.fetch(1));
     }
 
     // ---- what calls answer by what others answer
