@@ -97,7 +97,12 @@ public final class LanguageTest {
 
     /** No call goes more than eight deep, the library's functions counted; one method alone calls itself. */
     private static void depths() {
-        Map<String, Set<String>> calls = callsOfAll();
+        ToolProvider javap = ToolProvider.findFirst("javap").orElse(null);
+        if (javap == null) {
+            System.out.println("without javap nothing tells how deep calls go");
+            return;
+        }
+        Map<String, Set<String>> calls = callsOfAll(javap);
         check.due(0, "methods that javap tells", calls.size() > 100, true);
         for (String method : calls.keySet()) {
             check.due(0, method + " goes deep: " + depth(calls, method, 0), depth(calls, method, 0) <= 8, true);
@@ -105,14 +110,14 @@ public final class LanguageTest {
         }
     }
 
-    private static Map<String, Set<String>> callsOfAll() {
+    private static Map<String, Set<String>> callsOfAll(ToolProvider javap) {
         Map<String, Set<String>> calls = new TreeMap<>();
         List<Class<?>> classes = new ArrayList<>(List.of(TapeRings.class.getDeclaredClasses()));
         classes.add(TapeRings.class);
         for (Class<?> c : classes) {
             StringWriter told = new StringWriter();
-            ToolProvider.findFirst("javap").orElseThrow().run(new PrintWriter(told), new PrintWriter(told), "-c", "-p",
-                    "-cp", System.getProperty("java.class.path"), c.getName());
+            PrintWriter out = new PrintWriter(told);
+            javap.run(out, out, "-c", "-p", "-cp", System.getProperty("java.class.path"), c.getName());
             String method = "";
             for (String line : told.toString().split("\n")) {
                 Matcher head = Pattern.compile("  \\S.*?([\\w$]+)\\(.*").matcher(line);
@@ -144,6 +149,11 @@ public final class LanguageTest {
         var threads = (com.sun.management.ThreadMXBean) ManagementFactory.getThreadMXBean();
         TapeRings x = new TapeRings();
         for (int warm = 0; warm < 2; warm++) {
+            long ahead = threads.getCurrentThreadAllocatedBytes();
+            TapeRings y = new TapeRings();
+            long made = threads.getCurrentThreadAllocatedBytes() - ahead;
+            check.due(0, "an object holds " + made + " bytes", warm == 0 || made < 60000, true);
+            check.due(0, "rings of a new one", y.count(0), 0);
             long before = threads.getCurrentThreadAllocatedBytes();
             dearCalls(x);
             long bytes = threads.getCurrentThreadAllocatedBytes() - before;
