@@ -64,7 +64,8 @@ public final class SentencesOfPromisesTest {
     }
 
     /** Each of these is one call: what stands then is something of all. */
-    private static final List<Edges.Call> STEPS = List.of(x -> x.sign(0x31325B33), x -> x.sign(0x345D3500), x -> Edges.of(x.end(7)),
+    private static final List<Edges.Call> STEPS = List.of(x -> x.sign(0x31325B33), x -> x.sign(0x345D3500),
+            x -> Edges.of(x.end(7)),
             x -> x.splice(), x -> x.ring(0, 1), x -> x.ring(1, 0), x -> Edges.of(x.motor(1, 3, -2)), x -> x.head(0, 2, true),
             x -> Edges.of(x.wish(0, 4)), x -> x.mark(2, 1), x -> x.mark(4, 3), x -> x.stop(5), x -> x.weight(2, 150),
             x -> Edges.of(x.heads(3, 50, 7, 40)), x -> Edges.of(x.take(0, 7)), x -> Edges.of(x.gap(2)),
@@ -72,8 +73,9 @@ public final class SentencesOfPromisesTest {
             x -> x.sign(0x31322A33));
 
     /** Calls that only ask, or are refused. */
-    private static final List<Edges.Call> ASKING = List.of(x -> x.hand(1), x -> x.inch(0, 2), x -> x.heard(-1, 77), x -> x.all(),
-            x -> x.meets(9), x -> x.often(), x -> x.kept(), x -> x.out(300), x -> x.span(0), x -> x.pair(0), x -> x.mended(2),
+    private static final List<Edges.Call> ASKING = List.of(x -> x.hand(1), x -> x.inch(0, 2), x -> x.heard(-1, 77),
+            x -> x.all(), x -> x.meets(9), x -> x.often(), x -> x.kept(), x -> x.out(300), x -> x.span(0), x -> x.pair(0),
+            x -> x.mended(2),
             x -> x.known(0, 9), x -> x.edits(0, 1), x -> x.row(0), x -> x.of(1, 4), x -> x.way(1, 900), x -> x.count(5),
             x -> x.ring(2, 0), x -> x.piece(-1, 3), x -> x.fetch(9), x -> Edges.of(x.end(-1)), x -> x.tape(1),
             x -> x.keep(0, 4), x -> x.cut(0, 99), x -> x.set(0, 2, 0), x -> Edges.of(x.wish(3, 0)));
@@ -144,7 +146,8 @@ public final class SentencesOfPromisesTest {
     }
 
     private static List<Object[]> arguments(Class<?>[] types) {
-        int[] many = {Integer.MIN_VALUE, -1000, -2, -1, 0, 1, 2, 3, 4, 8, 9, 16, 23, 24, 60, 100, 1022, 5000, Integer.MAX_VALUE};
+        int[] many = {Integer.MIN_VALUE, -1000, -2, -1, 0, 1, 2, 3, 4, 8, 9, 16, 23, 24, 60, 100, 1022, 5000,
+            Integer.MAX_VALUE};
         int[] few = {Integer.MIN_VALUE, -1, 0, 1, 4, 20, 24, 100, Integer.MAX_VALUE};
         List<Object[]> all = new ArrayList<>();
         all.add(new Object[0]);
@@ -239,7 +242,8 @@ public final class SentencesOfPromisesTest {
 
     @Says("-101 OVER (the STRIP IN HAND stays).")
     static void promise4_theStripInHandStays() {
-        for (String text : new String[] {"", "x", "1x", "(1", "1*", "1*5*5", "1*8*31", "12/3(345)", "123/3(45)", "1*8*3*2"}) {
+        String[] none = {"", "x", "1x", "(1", "1*", "1*5*5", "1*8*31", "12/3(345)", "123/3(45)", "1*8*3*2"};
+        for (String text : none) {
             for (String hand : new String[] {"", "7", "[12]0", "1*8*3"}) {
                 TapeRings x = new TapeRings();
                 Check.splice(x, hand);
@@ -437,9 +441,12 @@ public final class SentencesOfPromisesTest {
         Random random = new Random(18);
         for (int run = 0; run < 200; run++) {
             int[] places = new int[1 + random.nextInt(9)];
+            int one = random.nextInt(1 << 4);
+            int other = random.nextInt(1 << 6);
             TapeRings x = new TapeRings();
             for (int t = 0; t < places.length; t++) {
-                places[t] = random.nextInt(4) == 0 ? -1 : 2 * (((t & 1) == 0 ? 1 : 0) | (t % 3 == 0 ? 2 : 0)) & (run % 7 | 2);
+                int bits = 2 * (one >> 2 * (t % 2) & 3 | other >> 2 * (t % 3) & 3);
+                places[t] = random.nextInt(4) == 0 ? -1 : bits;
                 x.tape(places[t]);
             }
             int pair = x.pair(0);

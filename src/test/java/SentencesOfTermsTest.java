@@ -493,7 +493,8 @@ public final class SentencesOfTermsTest {
 
     // ---- term 6
 
-    @Says({"JOINED: all in some order, each as it is or turned;", "SHORTEST: the fewest SOUNDS; of equal ones the least row."})
+    @Says({"JOINED: all in some order, each as it is or turned;",
+        "SHORTEST: the fewest SOUNDS; of equal ones the least row."})
     static void term6_theShortestOfAllOrders() {
         Random random = new Random(8);
         for (int run = 0; run < 300; run++) {
